@@ -1,0 +1,280 @@
+import java.util.Random;
+
+/** Texts of scenes made by chance: right ones, and ones with something wrong. */
+final class SceneMaker {
+    private static final String[] BITS = {"{", "}", "[", "]", ":", ",", "\"", "-", "0", "7", "-1", "99999999999999999999",
+        "1048577", "4194305", " ", "\n", "\t", "\r", "\u0000", "\u00ff", "x", "\"side\"", "\"light\"", ",1", ",{", "{}",
+        "[]", ",]", ",}", "-5", "00", "1000001", "65537", "256", "3", ",-", "\"mesh", ",\"camera\":", ".5", "e3"};
+    private final Random chance;
+    private final StringBuilder text = new StringBuilder();
+
+    SceneMaker(Random chance) {
+        this.chance = chance;
+    }
+
+    int below(int n) {
+        return chance.nextInt(n);
+    }
+
+    int from(int low, int high) {
+        return low + chance.nextInt(high - low + 1);
+    }
+
+    boolean once(int in) {
+        return chance.nextInt(in) == 0;
+    }
+
+    /** Within the reach; often near 0, sometimes at the very end. */
+    int reach(int most) {
+        switch (below(8)) {
+            case 0: return most;
+            case 1: return -most;
+            case 2: return 0;
+            case 3: return from(-most, most);
+            default: return from(-most / 16, most / 16);
+        }
+    }
+
+    private void space() {
+        if (once(12)) {
+            text.append(" \n\r\t".charAt(below(4)));
+        }
+    }
+
+    private SceneMaker put(String token) {
+        space();
+        text.append(token);
+        space();
+        return this;
+    }
+
+    private void word(String name) {
+        put("\"" + name + "\"").put(":");
+    }
+
+    private void number(String name, int n) {
+        word(name);
+        put(numberText(n));
+    }
+
+    private String numberText(int n) {
+        String digits = Integer.toString(Math.abs(n));
+        return (n < 0 || n == 0 && once(20) ? "-" : "") + (once(40) ? "00" : "") + digits;
+    }
+
+    private void numbers(String name, int... list) {
+        word(name);
+        put("[");
+        for (int i = 0; i < list.length; i++) {
+            if (i > 0) {
+                put(",");
+            }
+            put(numberText(list[i]));
+        }
+        put("]");
+    }
+
+    String right() {
+        text.setLength(0);
+        int textures = below(3);
+        int materials = from(1, 4);
+        int meshes = from(1, 3);
+        int nodes = below(5) == 0 ? from(0, 9) : from(1, 4);
+        int tracks = nodes == 0 ? 0 : below(4);
+        put("{");
+        if (textures > 0 || once(2)) {
+            list("textures", textures);
+        }
+        comma();
+        list("materials", materials);
+        put(",");
+        list("meshes", meshes, materials, textures);
+        if (nodes > 0) {
+            put(",");
+            list("nodes", nodes, meshes, 0);
+        }
+        if (tracks > 0) {
+            put(",");
+            list("tracks", tracks, nodes, 0);
+        }
+        if (once(3)) {
+            put(",");
+            word("camera");
+            put("{");
+            numbers("move", near(60000), near(60000), near(60000));
+            put(",");
+            numbers("turn", near(300), near(300), near(300));
+            put(",");
+            number("focus", once(4) ? from(8, 512) : from(8, 64));
+            put("}");
+        }
+        if (once(3)) {
+            put(",");
+            word("light");
+            put("{");
+            numbers("toward", reach(65536), reach(65536), reach(65536));
+            put(",");
+            number("ambient", from(0, 65536));
+            put("}");
+        }
+        put("}");
+        return text.toString();
+    }
+
+    private void comma() {
+        if (text.charAt(text.length() - 1) != '{' && text.toString().trim().length() > 1) {
+            put(",");
+        }
+    }
+
+    private int near(int most) {
+        return once(4) ? 0 : from(-most, most);
+    }
+
+    private void list(String name, int n) {
+        list(name, n, 0, n);
+    }
+
+    private int textureCount;
+
+    private void list(String name, int n, int others, int textures) {
+        if (name.equals("textures")) {
+            textureCount = n;
+        }
+        word(name);
+        put("[");
+        for (int i = 0; i < n; i++) {
+            if (i > 0) {
+                put(",");
+            }
+            put("{");
+            switch (name) {
+                case "textures": texture(); break;
+                case "materials": material(); break;
+                case "meshes": mesh(others); break;
+                case "nodes": node(i, others); break;
+                default: track(others); break;
+            }
+            put("}");
+        }
+        put("]");
+    }
+
+    private void texture() {
+        int side = 1 << (once(12) ? 4 : below(4));
+        number("side", side);
+        put(",");
+        number("wrap", below(3));
+        put(",");
+        number("soft", below(2));
+        put(",");
+        int[] texels = new int[3 * side * side];
+        for (int i = 0; i < texels.length; i++) {
+            texels[i] = once(3) ? 255 : below(256);
+        }
+        numbers("texels", texels);
+    }
+
+    private void material() {
+        numbers("colour", below(256), below(256), from(128, 255), once(2) ? 255 : below(255));
+        put(",");
+        number("texture", from(-1, textureCount - 1));
+        put(",");
+        number("both", once(4) ? 0 : 1);
+    }
+
+    private void mesh(int materials) {
+        number("material", below(materials));
+        put(",");
+        int points = from(3, 8);
+        int size = once(6) ? 1048576 : once(3) ? 200000 : 70000;
+        int[] p = new int[3 * points];
+        int[] normals = new int[3 * points];
+        int[] places = new int[2 * points];
+        for (int i = 0; i < 3 * points; i++) {
+            p[i] = from(-size, size);
+            normals[i] = reach(65536);
+        }
+        for (int i = 0; i < 2 * points; i++) {
+            places[i] = once(3) ? from(0, 1) * 65536 : from(-131072, 131072);
+        }
+        int[] faces = new int[3 * from(1, 6)];
+        for (int i = 0; i < faces.length; i++) {
+            faces[i] = below(points);
+        }
+        numbers("points", p);
+        put(",");
+        numbers("normals", normals);
+        put(",");
+        numbers("places", places);
+        put(",");
+        numbers("faces", faces);
+    }
+
+    private void node(int i, int meshes) {
+        number("parent", once(2) ? -1 : from(-1, i - 1));
+        put(",");
+        number("mesh", once(6) ? -1 : below(meshes));
+        put(",");
+        boolean far = once(12);
+        numbers("move", far ? reach(4194304) : near(120000), far ? reach(4194304) : near(120000),
+            far ? reach(4194304) : from(0, 300000));
+        put(",");
+        numbers("turn", once(2) ? 0 : reach(1048576), once(2) ? 0 : from(-4096, 4096), once(2) ? 0 : from(-4096, 4096));
+        put(",");
+        numbers("size", size(), size(), size());
+    }
+
+    private int size() {
+        return once(3) ? reach(1048576) : once(2) ? 65536 : from(-131072, 131072);
+    }
+
+    private void track(int nodes) {
+        number("node", below(nodes));
+        put(",");
+        int what = below(3);
+        number("what", what);
+        put(",");
+        number("how", below(3));
+        put(",");
+        int keys = from(1, 4);
+        int[] times = new int[keys];
+        int[] values = new int[3 * keys];
+        int t = once(2) ? 0 : below(200);
+        for (int i = 0; i < keys; i++) {
+            times[i] = t;
+            t += once(10) ? 200000 : from(1, 300);
+        }
+        for (int i = 0; i < 3 * keys; i++) {
+            values[i] = what == 0 ? near(200000) : what == 1 ? from(-4096, 4096) : size();
+        }
+        numbers("times", times);
+        put(",");
+        numbers("values", values);
+    }
+
+    /** A right text with a few bytes taken out, put in, doubled or cut off. */
+    String wrong() {
+        StringBuilder spoilt = new StringBuilder(right());
+        int times = from(1, 3);
+        for (int i = 0; i < times && spoilt.length() > 1; i++) {
+            int at = below(spoilt.length());
+            switch (below(6)) {
+                case 0: spoilt.deleteCharAt(at); break;
+                case 1: spoilt.setLength(at); break;
+                case 2: spoilt.insert(at, BITS[below(BITS.length)]); break;
+                case 3: spoilt.replace(at, Math.min(spoilt.length(), at + from(1, 3)), BITS[below(BITS.length)]); break;
+                case 4: spoilAtSign(spoilt, at, ']'); break;
+                default: spoilAtSign(spoilt, at, ','); break;
+            }
+        }
+        return spoilt.toString();
+    }
+
+    private void spoilAtSign(StringBuilder spoilt, int from, char sign) {
+        int at = spoilt.indexOf(String.valueOf(sign), from);
+        if (at >= 0) {
+            spoilt.insert(once(2) ? at : at + 1, BITS[below(BITS.length)]);
+        }
+    }
+}
