@@ -372,7 +372,7 @@ public final class OrreryBox {
                 texels[i] = numbers[3 * i] << 16 | numbers[3 * i + 1] << 8 | numbers[3 * i + 2];
             }
             last = 0;
-            for (int s = side; s > 1; s = s / 2) {
+            for (int s = side; s > 1 && last + 1 < starts.length; s = s / 2) {
                 starts[last + 1] = starts[last] + s * s;
                 halve(starts[last], s, starts[last + 1]);
                 last++;
@@ -607,6 +607,9 @@ public final class OrreryBox {
 
     /** Reads a text into a scene, or throws and tells what is wrong, and where. */
     private static final class Reader {
+        /** Above all that a thing can have, and ten times as much is still an int. */
+        private static final int BEYOND = 100000000;
+
         int wrong;
         int wrongAt;
         private final int[] row = new int[LONGEST_LIST];
@@ -712,12 +715,12 @@ public final class OrreryBox {
             texture.soft = number("soft", 0, 1) == 1;
             need(',');
             int texels = 3 * texture.side * texture.side;
-            numbers("texels", texels, texels, 0, 255);
+            numbers("texels", texels, texels, 0, 255, false);
             texture.fill(row);
         }
 
         private void readMaterial(int[] material) {
-            numbers("colour", 4, 4, 0, 255);
+            numbers("colour", 4, 4, 0, 255, false);
             System.arraycopy(row, 0, material, 0, 4);
             need(',');
             material[TEXTURE] = number("texture", NONE, scene.counts[TEXTURES] - 1);
@@ -728,18 +731,18 @@ public final class OrreryBox {
         private void readMesh(Mesh mesh) {
             mesh.material = number("material", 0, scene.counts[MATERIALS] - 1);
             need(',');
-            int n = numbers("points", 3 * MESH_POINTS, 3, -FAR_POINT, FAR_POINT);
+            int n = numbers("points", 3 * MESH_POINTS, 3, -FAR_POINT, FAR_POINT, false);
             System.arraycopy(row, 0, mesh.points, 0, n);
             mesh.pointCount = n / 3;
             need(',');
-            numbers("normals", n, n, -ONE, ONE);
+            numbers("normals", n, n, -ONE, ONE, false);
             System.arraycopy(row, 0, mesh.normals, 0, n);
             need(',');
             int flat = 2 * mesh.pointCount;
-            numbers("places", flat, flat, -FAR_PLACE, FAR_PLACE);
+            numbers("places", flat, flat, -FAR_PLACE, FAR_PLACE, false);
             System.arraycopy(row, 0, mesh.places, 0, flat);
             need(',');
-            int corners = numbers("faces", 3 * MESH_FACES, 3, 0, mesh.pointCount - 1);
+            int corners = numbers("faces", 3 * MESH_FACES, 3, 0, mesh.pointCount - 1, false);
             System.arraycopy(row, 0, mesh.faces, 0, corners);
             mesh.faceCount = corners / 3;
         }
@@ -750,13 +753,13 @@ public final class OrreryBox {
             need(',');
             node.mesh = number("mesh", NONE, scene.counts[MESHES] - 1);
             need(',');
-            numbers("move", 3, 3, -FAR_MOVE, FAR_MOVE);
+            numbers("move", 3, 3, -FAR_MOVE, FAR_MOVE, false);
             System.arraycopy(row, 0, node.numbers, 0, 3);
             need(',');
-            numbers("turn", 3, 3, -FAR_TURN, FAR_TURN);
+            numbers("turn", 3, 3, -FAR_TURN, FAR_TURN, false);
             System.arraycopy(row, 0, node.numbers, 3, 3);
             need(',');
-            numbers("size", 3, 3, -FAR_TURN, FAR_TURN);
+            numbers("size", 3, 3, -FAR_TURN, FAR_TURN, false);
             System.arraycopy(row, 0, node.numbers, 6, 3);
         }
 
@@ -767,21 +770,21 @@ public final class OrreryBox {
             need(',');
             track.how = number("how", 0, 2);
             need(',');
-            track.keys = times();
+            track.keys = numbers("times", TRACK_KEYS, 1, 0, LAST_TIME, true);
             System.arraycopy(row, 0, track.times, 0, track.keys);
             need(',');
             int reach = reachOf(track.what);
             int values = 3 * track.keys;
-            numbers("values", values, values, -reach, reach);
+            numbers("values", values, values, -reach, reach, false);
             System.arraycopy(row, 0, track.values, 0, values);
         }
 
         private void readCamera() {
             need('{');
-            numbers("move", 3, 3, -FAR_MOVE, FAR_MOVE);
+            numbers("move", 3, 3, -FAR_MOVE, FAR_MOVE, false);
             System.arraycopy(row, 0, scene.viewer, 0, 3);
             need(',');
-            numbers("turn", 3, 3, -FAR_TURN, FAR_TURN);
+            numbers("turn", 3, 3, -FAR_TURN, FAR_TURN, false);
             System.arraycopy(row, 0, scene.viewer, 3, 3);
             need(',');
             scene.viewer[FOCUS] = number("focus", LEAST_FOCUS, MOST_FOCUS);
@@ -790,7 +793,7 @@ public final class OrreryBox {
 
         private void readLight() {
             need('{');
-            numbers("toward", 3, 3, -ONE, ONE);
+            numbers("toward", 3, 3, -ONE, ONE, false);
             System.arraycopy(row, 0, scene.lamp, 0, 3);
             need(',');
             scene.lamp[AMBIENT] = number("ambient", 0, ONE);
@@ -803,72 +806,49 @@ public final class OrreryBox {
         }
 
         /** A list of at most so many numbers, in whole units, comes to the row: how many. */
-        private int numbers(String name, int most, int unit, int low, int high) {
+        private int numbers(String name, int most, int unit, int low, int high, boolean growing) {
             needName(name);
             need('[');
             boolean due = !sees(']');
+            int least = low;
             int n = 0;
             while (due && n < most) {
-                row[n] = needNumber(low, high);
+                row[n] = needNumber(least, high);
+                least = growing ? row[n] + 1 : low;
                 n++;
                 due = takes(',');
             }
-            closeList(n, unit, due);
-            return n;
-        }
-
-        /** As numbers, but each one is above the one before it. */
-        private int times() {
-            needName("times");
-            need('[');
-            boolean due = !sees(']');
-            int low = 0;
-            int n = 0;
-            while (due && n < TRACK_KEYS) {
-                row[n] = needNumber(low, LAST_TIME);
-                low = row[n] + 1;
-                n++;
-                due = takes(',');
-            }
-            closeList(n, 1, due);
-            return n;
-        }
-
-        /** One number more than the list can have is looked at only for being a number. */
-        private void closeList(int n, int unit, boolean more) {
-            if (more) {
-                needNumber(Integer.MIN_VALUE, Integer.MAX_VALUE);
+            if (due) {
+                // One more than the list can have is looked at only for being a number.
+                needNumber(-BEYOND, BEYOND);
                 refuse(3, numberAt);
             }
             if (sees(']') && (n == 0 || n % unit != 0)) {
                 refuse(3, at);
             }
             need(']');
+            return n;
         }
 
-        /** What is too great for an int, however long, stays far beyond all that a thing can have. */
+        /** However long it is, the digits of what no thing can have are not counted further than to BEYOND. */
         private int needNumber(int low, int high) {
             numberAt = at;
-            int sign = sees('-') ? 1 : 0;
-            int digits = 0;
+            int first = sees('-') ? at + 1 : at;
+            int p = first;
             int value = 0;
-            while (isDigit(at + sign + digits)) {
-                value = value < 100000000 ? 10 * value + text[at + sign + digits] - '0' : value;
-                digits++;
+            while (p < length && text[p] >= '0' && text[p] <= '9') {
+                value = Math.min(BEYOND, 10 * value + text[p] - '0');
+                p++;
             }
-            if (digits == 0) {
+            if (p == first) {
                 refuse(1, at);
             }
-            step(sign + digits);
-            value = sign == 1 ? -value : value;
+            value = sees('-') ? -value : value;
+            step(p - at);
             if (value < low || value > high) {
                 refuse(2, numberAt);
             }
             return value;
-        }
-
-        private boolean isDigit(int p) {
-            return p < length && text[p] >= '0' && text[p] <= '9';
         }
 
         private void needName(String name) {
@@ -876,7 +856,10 @@ public final class OrreryBox {
                 refuse(1, at);
             }
             step(name.length() + 2);
-            need(':');
+            if (!sees(':')) {
+                refuse(1, at);
+            }
+            step(1);
         }
 
         private boolean seesWord(String name) {
@@ -1297,7 +1280,12 @@ public final class OrreryBox {
             bottom = Math.min(top + 8, height) - 1;
             wipe();
             for (int at = 0; at < facesEnd; at += HEAD + CORNER * faces[at]) {
-                drawFace(at);
+                int[] material = scene.materials[faces[at + 1]];
+                for (int second = 1; second + 1 < faces[at]; second++) {
+                    if (piece.take(faces, at + HEAD, second, material[BOTH] == 1)) {
+                        drawPiece(material);
+                    }
+                }
             }
             done |= 1L << k;
         }
@@ -1307,15 +1295,6 @@ public final class OrreryBox {
                 for (int x = left; x <= right; x++) {
                     colours[y * width + x] = ground;
                     nears[y * width + x] = 0;
-                }
-            }
-        }
-
-        private void drawFace(int at) {
-            int[] material = scene.materials[faces[at + 1]];
-            for (int k = 1; k + 1 < faces[at]; k++) {
-                if (piece.take(faces, at + HEAD, k, material[BOTH] == 1)) {
-                    drawPiece(material);
                 }
             }
         }
@@ -1426,7 +1405,7 @@ public final class OrreryBox {
 
         private int bestFilter(int y, int line) {
             int best = 0;
-            int least = Integer.MAX_VALUE;
+            int least = 256 * MOST_RAW;
             for (int filter = 0; filter < 5; filter++) {
                 int sum = 0;
                 for (int x = 0; x < line && sum < least; x++) {
@@ -1654,8 +1633,9 @@ public final class OrreryBox {
         private void putBit(int bit) {
             held |= bit << heldBits;
             heldBits++;
-            if (heldBits == 8) {
-                putByte(held);
+            if (heldBits == 8 && size < out.length) {
+                out[size] = (byte) held;
+                size++;
                 held = 0;
                 heldBits = 0;
             }
