@@ -171,6 +171,14 @@ public final class AgainstPlainTest {
             for (int i = 0; i < 30; i++) {
                 test.load(test.maker.wrong());
             }
+            test.load(test.maker.tiny());
+            test.picture();
+            test.pick(test.maker.below(test.plain.width), test.maker.below(test.plain.height));
+            test.load(test.maker.large());
+            test.box.camera(2, 2 * test.plain.width, 0, 0);
+            test.plain.camera(2, 2 * test.plain.width, 0, 0);
+            test.picture();
+            test.pick(test.maker.below(test.plain.width), test.maker.below(test.plain.height));
         }
         Due.close("AgainstPlainTest");
     }

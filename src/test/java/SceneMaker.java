@@ -253,6 +253,51 @@ final class SceneMaker {
         numbers("values", values);
     }
 
+    /** So small and so near that cutting rounds corners to and fro across the sides. */
+    String tiny() {
+        int size = from(2, 300);
+        int focus = once(2) ? 512 : from(8, 512);
+        StringBuilder points = new StringBuilder();
+        StringBuilder faces = new StringBuilder();
+        StringBuilder nodes = new StringBuilder();
+        for (int i = 0; i < 16; i++) {
+            points.append(i == 0 ? "" : ",").append(from(-size, size)).append(",").append(from(-size, size)).append(",")
+                .append(once(2) ? 0 : from(-size, size));
+        }
+        for (int i = 0; i < 192; i++) {
+            faces.append(i == 0 ? "" : ",").append(below(16));
+        }
+        for (int i = 0; i < 4; i++) {
+            nodes.append(i == 0 ? "" : ",").append(Texts.node(-1, 0, from(-size, size), from(-size, size),
+                4096 + from(-size, 2 * size)));
+        }
+        String mesh = "{\"material\":0,\"points\":[" + points + "],\"normals\":[" + Texts.repeat("0,0,-65536", 16)
+            + "],\"places\":[" + Texts.repeat("0,65536,65536,9", 8) + "],\"faces\":[" + faces + "]}";
+        String scene = Texts.scene(Texts.texture(2, 0, 0, "1,2,3,40,50,60,70,80,90,200,210,220"),
+            Texts.material(250, 255, 255, once(2) ? 255 : 128, 0, below(2)), mesh, nodes.toString(), "");
+        return scene.substring(0, scene.length() - 1) + ",\"camera\":{\"move\":[0,0,0],\"turn\":[0,0,0],\"focus\":"
+            + focus + "}}";
+    }
+
+    /** Large faces across the corners of a picture of 16 by 16, which leave seven or eight corners when they are cut. */
+    String large() {
+        StringBuilder points = new StringBuilder();
+        StringBuilder faces = new StringBuilder();
+        int[][] around = {{0, -15}, {-20, 5}, {38, 23}};
+        for (int i = 0; i < 96; i++) {
+            int[] at = around[i % 3];
+            int tilt = i % 3 == 0 ? 200000 : 900000;
+            points.append(i == 0 ? "" : ",").append(at[0] * from(5800, 7200) + from(-9000, 9000)).append(",")
+                .append(at[1] * from(5800, 7200) + from(-9000, 9000)).append(",").append(once(3) ? 0 : from(-tilt, tilt / 8));
+            faces.append(i == 0 ? "" : ",").append(i);
+        }
+        String mesh = "{\"material\":0,\"points\":[" + points + "],\"normals\":[" + Texts.repeat("0,0,-65536", 96)
+            + "],\"places\":[" + Texts.repeat("0,0,65536,0,0,65536", 32) + "],\"faces\":[" + faces + "]}";
+        return Texts.scene(Texts.texture(2, 0, 1, "1,2,3,40,50,60,70,80,90,200,210,220"),
+            Texts.material(255, 255, 255, 40, 0, 1), mesh, Texts.node(-1, 0, 0, 0, 262144) + ","
+            + Texts.node(-1, 0, from(-5000, 5000), from(-5000, 5000), from(150000, 300000)), "");
+    }
+
     /** A right text with a few bytes taken out, put in, doubled or cut off. */
     String wrong() {
         StringBuilder spoilt = new StringBuilder(right());
