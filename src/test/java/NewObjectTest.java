@@ -95,8 +95,24 @@ public final class NewObjectTest {
         Due.is("error(1)", box.error(1), 1);
     }
 
+    /** So many calls are more than the document promises anything for, but feed must still know its room. */
+    private static void fullTape() {
+        OrreryBox box = new OrreryBox(8, 8);
+        for (int i = 0; i < 3276; i++) {
+            Due.is("feed " + i, box.feed(0x20202020, 0x20202020, 0x20202020, 0x20202020, 0x20202020), true);
+        }
+        Due.is("no room for twenty more", box.feed(1, 2, 3, 4, 5), false);
+        Due.is("end(65521)", box.end(65521), false);
+        Due.is("end(65520)", box.end(65520), true);
+        Due.is("end(65516)", box.end(65516), true);
+        Due.is("just room for twenty more", box.feed(0x20202020, 0x20202020, 0x20202020, 0x20202020, 0x20207B7D), true);
+        Due.is("it is full", box.feed(1, 2, 3, 4, 5), false);
+        Due.is("load", Due.load(box), 0);
+    }
+
     public static void main(String[] args) {
         sizes();
+        fullTape();
         nothingThere();
         firstCameraAndLight();
         tape();
