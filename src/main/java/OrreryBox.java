@@ -1017,9 +1017,10 @@ public final class OrreryBox {
         private void standPoints(Mesh mesh) {
             int[] sighted = sights[order[place]];
             int[] placing = scene.nodes[order[place]].placing;
+            int[] points = mesh.points;
             for (int p = 0; p < mesh.pointCount; p++) {
                 for (int i = 0; i < 3; i++) {
-                    long moved = Fixed.along(sighted, i, mesh.points[3 * p], mesh.points[3 * p + 1], mesh.points[3 * p + 2]);
+                    long moved = Fixed.along(sighted, i, points[3 * p], points[3 * p + 1], points[3 * p + 2]);
                     stood[4 * p + i] = Fixed.bound(moved + sighted[4 * i + 3]);
                 }
                 stood[4 * p + 3] = lightOf(placing, mesh.normals, 3 * p);
@@ -1200,6 +1201,7 @@ public final class OrreryBox {
     /** The picture that began, its faces as they were then, and its tiles. */
     private static final class Picture {
         private static final int HEAD = 2;
+        private static final int WHITE = 0xFFFFFF;
 
         final int tiles;
         final int[] colours;
@@ -1313,7 +1315,10 @@ public final class OrreryBox {
                 for (int x = firstX; x <= lastX; x++) {
                     int at = y * width + x;
                     if (piece.covers(x, y) && piece.near() > nears[at]) {
-                        int texel = texture == null ? 0xFFFFFF : texture.colourAt(level, piece.mixed(3), piece.mixed(4));
+                        int texel = WHITE;
+                        if (texture != null) {
+                            texel = texture.colourAt(level, piece.mixed(3), piece.mixed(4));
+                        }
                         drawPixel(at, material, texel);
                     }
                 }
