@@ -10,10 +10,14 @@ public final class AgainstPlainTest {
     private final String run;
 
     private AgainstPlainTest(int seed) {
+        this(seed, 4, 52);
+    }
+
+    private AgainstPlainTest(int seed, int least, int most) {
         chance = new Random(seed);
         maker = new SceneMaker(chance);
-        int width = maker.from(4, 52);
-        int height = maker.once(2) ? maker.from(8, 20) : maker.from(4, 52);
+        int width = maker.from(least, most);
+        int height = maker.once(2) ? maker.from(8, 16) : maker.from(least, most);
         box = new OrreryBox(width, height);
         plain = new PlainBox(width, height);
         run = "run " + seed + ": ";
@@ -149,6 +153,12 @@ public final class AgainstPlainTest {
         }
     }
 
+    private void somePicks() {
+        for (int i = 0; i < 8; i++) {
+            pick(maker.below(plain.width), maker.below(plain.height));
+        }
+    }
+
     private void file() {
         int size = plain.file();
         Due.is(run + "file()", box.file(), size);
@@ -165,6 +175,7 @@ public final class AgainstPlainTest {
             test.load(test.maker.right());
             test.picture();
             test.file();
+            test.somePicks();
             for (int i = 0; i < 60; i++) {
                 test.call();
             }
@@ -173,12 +184,18 @@ public final class AgainstPlainTest {
             }
             test.load(test.maker.tiny());
             test.picture();
-            test.pick(test.maker.below(test.plain.width), test.maker.below(test.plain.height));
+            test.somePicks();
             test.load(test.maker.large());
             test.box.camera(2, 2 * test.plain.width, 0, 0);
             test.plain.camera(2, 2 * test.plain.width, 0, 0);
             test.picture();
-            test.pick(test.maker.below(test.plain.width), test.maker.below(test.plain.height));
+            test.somePicks();
+        }
+        for (int seed = from; seed < from + 2; seed++) {
+            AgainstPlainTest test = new AgainstPlainTest(seed, 16, 16);
+            test.load(test.maker.most());
+            test.picture();
+            test.somePicks();
         }
         Due.close("AgainstPlainTest");
     }

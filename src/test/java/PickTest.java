@@ -20,6 +20,12 @@ public final class PickTest {
         met(box, 4, 8, 0, 1);
         met(box, 11, 8, 0, 0);
         met(box, 12, 8, -1, -1);
+        met(box, 8, 3, -1, -1);
+        met(box, 8, 4, 0, 0);
+        met(box, 8, 11, 0, 1);
+        met(box, 8, 12, -1, -1);
+        met(box, 4, 11, 0, 1);
+        met(box, 11, 4, 0, 0);
         met(box, 10, 5, 0, 0);
         met(box, -1, 5, -1, -1);
         met(box, 10, 5, 0, 0);

@@ -281,6 +281,21 @@ final class SceneMaker {
 
     /** Large faces across the corners of a picture of 16 by 16, which leave seven or eight corners when they are cut. */
     String large() {
+        return across(32, Texts.node(-1, 0, 0, 0, 262144) + ","
+            + Texts.node(-1, 0, from(-5000, 5000), from(-5000, 5000), from(150000, 300000)));
+    }
+
+    /** As many nodes with as many of such faces as there can be. */
+    String most() {
+        StringBuilder nodes = new StringBuilder();
+        for (int i = 0; i < 48; i++) {
+            nodes.append(i == 0 ? "" : ",").append(Texts.node(-1, 0, from(-5000, 5000), from(-5000, 5000),
+                from(200000, 300000)));
+        }
+        return across(128, nodes.toString());
+    }
+
+    private String across(int faceCount, String nodes) {
         StringBuilder points = new StringBuilder();
         StringBuilder faces = new StringBuilder();
         int[][] around = {{0, -15}, {-20, 5}, {38, 23}};
@@ -289,13 +304,14 @@ final class SceneMaker {
             int tilt = i % 3 == 0 ? 200000 : 900000;
             points.append(i == 0 ? "" : ",").append(at[0] * from(5800, 7200) + from(-9000, 9000)).append(",")
                 .append(at[1] * from(5800, 7200) + from(-9000, 9000)).append(",").append(once(3) ? 0 : from(-tilt, tilt / 8));
-            faces.append(i == 0 ? "" : ",").append(i);
+        }
+        for (int i = 0; i < 3 * faceCount; i++) {
+            faces.append(i == 0 ? "" : ",").append(i % 96);
         }
         String mesh = "{\"material\":0,\"points\":[" + points + "],\"normals\":[" + Texts.repeat("0,0,-65536", 96)
             + "],\"places\":[" + Texts.repeat("0,0,65536,0,0,65536", 32) + "],\"faces\":[" + faces + "]}";
         return Texts.scene(Texts.texture(2, 0, 1, "1,2,3,40,50,60,70,80,90,200,210,220"),
-            Texts.material(255, 255, 255, 40, 0, 1), mesh, Texts.node(-1, 0, 0, 0, 262144) + ","
-            + Texts.node(-1, 0, from(-5000, 5000), from(-5000, 5000), from(150000, 300000)), "");
+            Texts.material(255, 255, 255, 40, 0, 1), mesh, nodes, "");
     }
 
     /** A right text with a few bytes taken out, put in, doubled or cut off. */

@@ -166,6 +166,24 @@ public final class SceneTest {
         moveIs(box, 2, 65536, -65536, 0);
     }
 
+    private static void mostKeys() {
+        StringBuilder times = new StringBuilder();
+        StringBuilder values = new StringBuilder();
+        for (int i = 0; i < 32; i++) {
+            times.append(i == 0 ? "" : ",").append(10 * i);
+            values.append(i == 0 ? "" : ",").append(i).append(",").append(-i).append(",").append(100 * i);
+        }
+        OrreryBox box = new OrreryBox(8, 8);
+        Due.is("load", Due.load(box, Texts.scene("", "", "", Texts.node(-1, -1, 0, 0, 0), Texts.repeat(Texts.track(0, 0, 1,
+            times.toString(), values.toString()), 2))), 1);
+        for (int t = 0; t < 330; t += 5) {
+            box.time(t);
+            int key = Math.min(31, t / 10);
+            boolean between = t % 10 == 5 && key < 31;
+            moveIs(box, 0, key, between ? -key - 1 : -key, between ? 100 * key + 50 : 100 * key);
+        }
+    }
+
     private static void moveIs(OrreryBox box, int node, int x, int y, int z) {
         Due.is("x of " + node + " at " + box.count(5), box.world(node, 0, 3), x);
         Due.is("y of " + node + " at " + box.count(5), box.world(node, 1, 3), y);
@@ -294,6 +312,7 @@ public final class SceneTest {
         set();
         hang();
         time();
+        mostKeys();
         hide();
         camera();
         light();

@@ -199,7 +199,8 @@ public final class TextTest {
             {"faces\":[0,0,0]", "faces\":[" + Texts.repeat("0", 384) + ",^5]"}};
         spoilCount("meshes", MESH, mesh);
         String[][] node = {{"move\":[0,0,0]", "move\":[0,0,0,^0]"}, {"turn\":[0,0,0]", "turn\":[0,0^]"},
-            {"size\":[0,0,0]", "size\":[^]"}};
+            {"turn\":[0,0,0]", "turn\":[0,0,0,^0]"}, {"size\":[0,0,0]", "size\":[^]"},
+            {"size\":[0,0,0]", "size\":[0,0,0,^0,0,0]"}};
         spoilCount("nodes", NODE, node);
         StringBuilder times = new StringBuilder("0");
         for (int i = 1; i < 32; i++) {
@@ -212,6 +213,8 @@ public final class TextTest {
         wrong(1, behind("tracks", TRACK.replace("times\":[0]", "times\":[" + times + ",^-]")));
         wrong(1, behind("tracks", TRACK.replace("times\":[0]", "times\":[" + times + " ^5]")));
         wrong(3, "{\"camera\":" + CAMERA.replace("move\":[0,0,0]", "move\":[0^]") + "}");
+        wrong(3, "{\"camera\":" + CAMERA.replace("move\":[0,0,0]", "move\":[0,0,0,^0]") + "}");
+        wrong(3, "{\"camera\":" + CAMERA.replace("turn\":[0,0,0]", "turn\":[0,0,0,^0]") + "}");
         wrong(3, "{\"light\":" + LIGHT.replace("[0,0,0]", "[0,0,0 , ^99999999]") + "}");
         wrong(1, "{\"light\":" + LIGHT.replace("[0,0,0]", "[0,0^}") + "}");
     }
@@ -267,7 +270,40 @@ public final class TextTest {
         Due.is("nothing is seen", box.pick(8, 7), -1);
     }
 
+    /** What the tape had behind its end is no part of the text. */
+    private static void behindTheEnd() {
+        String text = "{\"camera\": {\"move\":[0,0,0],\"turn\":[0,0,0],\"focus\":88} } ";
+        for (int n = 0; n <= text.length(); n++) {
+            box = new OrreryBox(8, 8);
+            Due.tape(box, text);
+            box.end(n);
+            boolean whole = n >= text.length() - 1;
+            Due.is("load of " + n, Due.load(box), whole ? 0 : Due.ILLEGAL_ARGUMENT);
+            Due.is("error(0) of " + n, box.error(0), whole ? 0 : 1);
+            int quote = text.lastIndexOf('"', n - 1);
+            boolean inWord = n > 0 && text.substring(0, n).replaceAll("[^\"]", "").length() % 2 == 1;
+            Due.is("error(1) of " + n, box.error(1), whole ? 0 : inWord ? quote : n);
+        }
+    }
+
+    /** Scenes take turns in the same memory: nothing of an earlier one is left. */
+    private static void overAndOver() {
+        box = new OrreryBox(16, 16);
+        for (int i = 0; i < 6; i++) {
+            again(Texts.redSquare(), 1);
+            Due.is("it is seen", box.pick(8, 8), 0);
+            Due.is("hide", box.hide(0, true), true);
+            Due.is("it is not seen", box.pick(8, 8), -1);
+            box.time(77 + i);
+            if (i % 2 == 0) {
+                box.begin();
+            }
+        }
+    }
+
     public static void main(String[] args) {
+        behindTheEnd();
+        overAndOver();
         rightOnes();
         noToken();
         badNumbers();
