@@ -40,7 +40,11 @@ public final class OrreryBox {
     private static final int TRACK_KEYS = 32;
     private static final int LONGEST_LIST = 3072;
     private static final int CORNER = 6;
-    /** Cutting rounds, so a shape may stop being convex: five sides make at most 19 corners of 3 then. */
+    private static final int PIECE = 3 * CORNER;
+    /**
+     * Cutting rounds, so a shape may stop being convex, and a side may cut it more than twice: of 3 corners the five
+     * sides make at most 4, 6, 9, 13 and 19.
+     */
     private static final int MOST_CORNERS = 24;
     private static final int MOST_FACES = 6144;
     private static final int MOST_PIECES = 36864;
@@ -193,7 +197,10 @@ public final class OrreryBox {
     public int begin() {
         scene.placeNodes();
         sight.stand(scene);
-        picture.start(scene, sight, ground);
+        picture.start(scene, ground);
+        for (int n = 0; n < MOST_PIECES && sight.nextPiece(); n++) {
+            picture.keep(sight.piece, sight.materialNumber());
+        }
         return picture.tiles;
     }
 
@@ -264,18 +271,11 @@ public final class OrreryBox {
         Piece piece = sight.piece;
         int node = NONE;
         long nearest = 0;
-        int pieces = 0;
-        for (int n = 0; n < MOST_FACES && sight.advance(); n++) {
-            for (int k = 1; k + 1 < sight.cornerCount && pieces < MOST_PIECES; k++) {
-                if (!sight.takesPiece(k)) {
-                    continue;
-                }
-                pieces++;
-                if (piece.mayCover(x, y) && piece.covers(x, y) && piece.near() > nearest) {
-                    nearest = piece.near();
-                    node = sight.nodeNumber();
-                    pickedFace = sight.face;
-                }
+        for (int n = 0; n < MOST_PIECES && sight.nextPiece(); n++) {
+            if (piece.mayCover(x, y) && piece.covers(x, y) && piece.near() > nearest) {
+                nearest = piece.near();
+                node = sight.nodeNumber();
+                pickedFace = sight.face;
             }
         }
         return node;
@@ -907,13 +907,15 @@ public final class OrreryBox {
         }
     }
 
-    /** Walks over what the camera sees of a scene, face by face in THE ORDER. */
+    /** Walks over what the camera sees of a scene, piece by piece in THE ORDER. */
     private static final class Sight {
+        /** The piece that the walk is at, and the face that it is of. */
         final Piece piece = new Piece();
-        /** The face that the walk is at, and its corners, cut and on the picture. */
         int face;
-        int[] corners = new int[CORNER * MOST_CORNERS];
-        int cornerCount;
+        /** The face's corners, cut and on the picture, and which of them is the piece's second one. */
+        private int[] corners = new int[CORNER * MOST_CORNERS];
+        private int cornerCount;
+        private int second;
         private final int width;
         private final int height;
         private Scene scene;
@@ -937,6 +939,8 @@ public final class OrreryBox {
             seen = 0;
             place = 0;
             face = -1;
+            cornerCount = 0;
+            second = 0;
             placeView();
             for (int i = 0; i < scene.counts[NODES]; i++) {
                 Node node = scene.nodes[i];
@@ -991,8 +995,25 @@ public final class OrreryBox {
             return scene.meshes[scene.nodes[order[place]].mesh].material;
         }
 
+        /** On to the next piece that is not nothing; false if none is left. */
+        boolean nextPiece() {
+            for (int n = 0; n < MOST_FACES * MOST_CORNERS; n++) {
+                second++;
+                if (second + 1 >= cornerCount) {
+                    if (!nextFace()) {
+                        return false;
+                    }
+                    second = 1;
+                }
+                if (piece.take(corners, second, scene.materials[materialNumber()][BOTH] == 1)) {
+                    return true;
+                }
+            }
+            return false;
+        }
+
         /** On to the next face of which something is left; false if there is none. */
-        boolean advance() {
+        private boolean nextFace() {
             for (; place < seen; place++) {
                 Mesh mesh = scene.meshes[scene.nodes[order[place]].mesh];
                 if (face < 0) {
@@ -1007,11 +1028,6 @@ public final class OrreryBox {
                 face = -1;
             }
             return false;
-        }
-
-        /** Piece k of the face is in piece; false if it is nothing. */
-        boolean takesPiece(int k) {
-            return piece.take(corners, 0, k, scene.materials[materialNumber()][BOTH] == 1);
         }
 
         private void standPoints(Mesh mesh) {
@@ -1088,9 +1104,10 @@ public final class OrreryBox {
         }
 
         private void putBetween(int p, long a, int q, long b, int to) {
+            long whole = Math.max(1, a - b);
             for (int i = 0; i < CORNER; i++) {
                 long change = corners[q + i] - corners[p + i];
-                cutCorners[to + i] = (int) (corners[p + i] + Fixed.div(change * a, a - b));
+                cutCorners[to + i] = (int) (corners[p + i] + Math.floorDiv(change * a, whole));
             }
         }
 
@@ -1112,24 +1129,32 @@ public final class OrreryBox {
         private static final int THIRD = 2 * CORNER;
 
         long area;
-        private final int[] row = new int[3 * CORNER];
+        private final int[] row = new int[PIECE];
         private long w0;
         private long w1;
         private long w2;
         private long h;
 
-        /** Takes the corners 0, k, k + 1 of those that begin there; false if that piece is nothing. */
-        boolean take(int[] corners, int from, int k, boolean both) {
-            int second = from + CORNER * k;
-            System.arraycopy(corners, from, row, 0, CORNER);
-            System.arraycopy(corners, second, row, SECOND, 2 * CORNER);
+        /** Takes the corners 0, k, k + 1; false if that piece is nothing. */
+        boolean take(int[] corners, int k, boolean both) {
+            System.arraycopy(corners, 0, row, 0, CORNER);
+            System.arraycopy(corners, CORNER * k, row, SECOND, 2 * CORNER);
             area = cross(0, 1);
             if (area < 0 && both) {
-                System.arraycopy(corners, second, row, THIRD, CORNER);
-                System.arraycopy(corners, second + CORNER, row, SECOND, CORNER);
+                System.arraycopy(corners, CORNER * k, row, THIRD, CORNER);
+                System.arraycopy(corners, CORNER * (k + 1), row, SECOND, CORNER);
                 area = -area;
             }
             return area > 0;
+        }
+
+        void keepAt(int[] rows, int at) {
+            System.arraycopy(row, 0, rows, at, PIECE);
+        }
+
+        void takeAt(int[] rows, int at) {
+            System.arraycopy(rows, at, row, 0, PIECE);
+            area = cross(0, 1);
         }
 
         private long cross(int i, int j) {
@@ -1198,9 +1223,8 @@ public final class OrreryBox {
         }
     }
 
-    /** The picture that began, its faces as they were then, and its tiles. */
+    /** The picture that began, its pieces as they were then, and its tiles. */
     private static final class Picture {
-        private static final int HEAD = 2;
         private static final int WHITE = 0xFFFFFF;
 
         final int tiles;
@@ -1212,9 +1236,10 @@ public final class OrreryBox {
         private final int height;
         private final int across;
         private int ground;
-        /** Of each face how many corners it has, its material, and the corners: room for six pieces of every face. */
-        private final int[] faces = new int[MOST_FACES * (HEAD + 8 * CORNER)];
-        private int facesEnd;
+        /** The corners of each piece that is not nothing, and its material: room for all that can be there. */
+        private final int[] pieces = new int[MOST_PIECES * PIECE];
+        private final byte[] kinds = new byte[MOST_PIECES];
+        private int pieceCount;
         private final Piece piece = new Piece();
         private boolean begun;
         private long done;
@@ -1233,34 +1258,21 @@ public final class OrreryBox {
             nears = new int[width * height];
         }
 
-        void start(Scene now, Sight sight, int background) {
+        void start(Scene now, int background) {
             scene = now;
             ground = background;
             begun = true;
             done = 0;
-            facesEnd = 0;
-            int pieces = 0;
-            for (int n = 0; n < MOST_FACES && sight.advance(); n++) {
-                pieces += keepFace(sight, MOST_PIECES - pieces);
-            }
+            pieceCount = 0;
         }
 
-        /** Keeps a face as far as its pieces find room: how many of them are not nothing. */
-        private int keepFace(Sight sight, int room) {
-            int pieces = 0;
-            int k = 1;
-            while (k + 1 < sight.cornerCount && pieces < room) {
-                pieces += sight.takesPiece(k) ? 1 : 0;
-                k++;
+        /** Further ones than the document lets be there are nothing. */
+        void keep(Piece next, int material) {
+            if (pieceCount < MOST_PIECES) {
+                next.keepAt(pieces, PIECE * pieceCount);
+                kinds[pieceCount] = (byte) material;
+                pieceCount++;
             }
-            int length = CORNER * (k + 1);
-            if (pieces > 0 && facesEnd + HEAD + length <= faces.length) {
-                faces[facesEnd] = k + 1;
-                faces[facesEnd + 1] = sight.materialNumber();
-                System.arraycopy(sight.corners, 0, faces, facesEnd + HEAD, length);
-                facesEnd += HEAD + length;
-            }
-            return pieces;
         }
 
         boolean lacks(int k) {
@@ -1281,13 +1293,9 @@ public final class OrreryBox {
             right = Math.min(left + 8, width) - 1;
             bottom = Math.min(top + 8, height) - 1;
             wipe();
-            for (int at = 0; at < facesEnd; at += HEAD + CORNER * faces[at]) {
-                int[] material = scene.materials[faces[at + 1]];
-                for (int second = 1; second + 1 < faces[at]; second++) {
-                    if (piece.take(faces, at + HEAD, second, material[BOTH] == 1)) {
-                        drawPiece(material);
-                    }
-                }
+            for (int n = 0; n < pieceCount; n++) {
+                piece.takeAt(pieces, PIECE * n);
+                drawPiece(scene.materials[kinds[n]]);
             }
             done |= 1L << k;
         }

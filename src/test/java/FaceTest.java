@@ -78,7 +78,7 @@ public final class FaceTest {
         Set<Object> before = Collections.newSetFromMap(new IdentityHashMap<>());
         long fields = held(box, before);
         System.out.println("an object holds " + before.size() + " objects and arrays, " + fields + " fields and elements");
-        Due.is("fields and elements", fields < 600000, true);
+        Due.is("fields and elements", fields < 1000000, true);
         Due.is("objects and arrays", before.size() < 2000, true);
         Due.load(box, Texts.redSquare());
         Due.load(box, "{");
