@@ -17,7 +17,7 @@ public final class AgainstPlainTest {
         chance = new Random(seed);
         maker = new SceneMaker(chance);
         int width = maker.from(least, most);
-        int height = maker.once(2) ? maker.from(8, 16) : maker.from(least, most);
+        int height = maker.once(2) ? maker.from(8, Math.min(16, most)) : maker.from(least, most);
         box = new OrreryBox(width, height);
         plain = new PlainBox(width, height);
         run = "run " + seed + ": ";
@@ -194,6 +194,12 @@ public final class AgainstPlainTest {
         for (int seed = from; seed < from + 2; seed++) {
             AgainstPlainTest test = new AgainstPlainTest(seed, 16, 16);
             test.load(test.maker.most());
+            test.picture();
+            test.somePicks();
+        }
+        for (int seed = from; seed < from + 16; seed++) {
+            AgainstPlainTest test = new AgainstPlainTest(seed, 8, 8);
+            test.load(test.maker.nine(seed % 4 == 0 ? 48 : 2));
             test.picture();
             test.somePicks();
         }

@@ -314,6 +314,28 @@ final class SceneMaker {
             Texts.material(255, 255, 255, 40, 0, 1), mesh, nodes, "");
     }
 
+    /** Faces that a picture of 8 by 8 with focus 512 cuts to nine corners, or nearly so. */
+    String nine(int nodeCount) {
+        int[][] known = {{107, -107, 6851, 84, 125, 4102, -73, -64, 4094}, {-67, 73, 4100, 118, -113, 4084, -99, -99, 6337}};
+        StringBuilder points = new StringBuilder();
+        StringBuilder faces = new StringBuilder();
+        for (int i = 0; i < 42; i++) {
+            int[] like = known[below(2)];
+            for (int k = 0; k < 9; k++) {
+                points.append(i + k == 0 ? "" : ",").append(like[k] + (once(3) ? from(-3, 3) : 0));
+            }
+        }
+        for (int i = 0; i < 384; i++) {
+            faces.append(i == 0 ? "" : ",").append(i % 126);
+        }
+        String mesh = "{\"material\":0,\"points\":[" + points + "],\"normals\":[" + Texts.repeat("0,0,-65536", 126)
+            + "],\"places\":[" + Texts.repeat("0,0,65536,0,0,65536", 42) + "],\"faces\":[" + faces + "]}";
+        String scene = Texts.scene(Texts.texture(2, 0, 1, "1,2,3,40,50,60,70,80,90,200,210,220"),
+            Texts.material(255, 255, 255, once(2) ? 255 : 9, 0, once(4) ? 0 : 1), mesh,
+            Texts.repeat(Texts.node(-1, 0, 0, 0, 0), nodeCount), "");
+        return scene.substring(0, scene.length() - 1) + ",\"camera\":{\"move\":[0,0,0],\"turn\":[0,0,0],\"focus\":512}}";
+    }
+
     /** A right text with a few bytes taken out, put in, doubled or cut off. */
     String wrong() {
         StringBuilder spoilt = new StringBuilder(right());
