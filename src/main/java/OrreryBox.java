@@ -227,7 +227,17 @@ public final class OrreryBox {
         }
         scene.placeNodes();
         sight.stand(scene);
-        return pickNearest(x, y);
+        Piece piece = sight.piece;
+        int node = NONE;
+        long nearest = 0;
+        for (int n = 0; n < MOST_PIECES && sight.nextPiece(); n++) {
+            if (piece.mayCover(x, y) && piece.covers(x, y) && piece.near() > nearest) {
+                nearest = piece.near();
+                node = sight.nodeNumber();
+                pickedFace = sight.face;
+            }
+        }
+        return node;
     }
 
     public int picked() {
@@ -265,20 +275,6 @@ public final class OrreryBox {
 
     private boolean hasPixel(int x, int y) {
         return within(x, 0, width - 1) && within(y, 0, height - 1);
-    }
-
-    private int pickNearest(int x, int y) {
-        Piece piece = sight.piece;
-        int node = NONE;
-        long nearest = 0;
-        for (int n = 0; n < MOST_PIECES && sight.nextPiece(); n++) {
-            if (piece.mayCover(x, y) && piece.covers(x, y) && piece.near() > nearest) {
-                nearest = piece.near();
-                node = sight.nodeNumber();
-                pickedFace = sight.face;
-            }
-        }
-        return node;
     }
 
     private static boolean within(int v, int low, int high) {
@@ -334,7 +330,10 @@ public final class OrreryBox {
             }
         }
 
-        /** Products with the 0s and 1s of the three turns are exact, so just these ones are left to round. */
+        /**
+         * Products with the 0s and 1s of the three turns are exact, so just these ones are left to round. The fourth
+         * column is left to whoever asks: a move stands there.
+         */
         static void turn(int[] numbers, int from, int[] to) {
             int sx = sin(numbers[from]);
             int cx = sin(numbers[from] + 1024);
@@ -354,7 +353,6 @@ public final class OrreryBox {
         private static void roll(int[] to, int at, long a, long b, int sz, int cz) {
             to[at] = (int) (mul(a, cz) + mul(b, sz));
             to[at + 1] = (int) (mul(a, -sz) + mul(b, cz));
-            to[at + 3] = 0;
         }
     }
 

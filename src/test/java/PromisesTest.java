@@ -115,6 +115,130 @@ public final class PromisesTest {
         }
     }
 
+    /** "the first camera and light where one is missing": also after others, set by hand or named in a text. */
+    private static void firstOnesAgain() {
+        String text = Texts.redSquare();
+        String named = text.substring(0, text.length() - 1)
+            + ",\"camera\":{\"move\":[4,5,6],\"turn\":[7,8,9],\"focus\":77},\"light\":{\"toward\":[0,0,65536],\"ambient\":7}}";
+        for (int way = 0; way < 2; way++) {
+            OrreryBox box = new OrreryBox(16, 16);
+            Due.is("load", Due.load(box, way == 0 ? named : text), 1);
+            if (way == 1) {
+                box.camera(0, 70000, 0, 0);
+                box.camera(1, 0, 0, 700);
+                box.camera(2, 100, 0, 0);
+                box.light(0, 0, 65536, 7);
+            }
+            Due.is("load", Due.load(box, text.replace("262144", "524288")), 1);
+            Due.drawAll(box);
+            // Half as wide as the picture, with the first focus; all of it lit.
+            for (int i = 0; i < 256; i++) {
+                boolean in = i % 16 >= 4 && i % 16 < 12 && i / 16 >= 4 && i / 16 < 12;
+                Due.is("pixel " + i + ", way " + way, box.pixel(i % 16, i / 16), in ? 0xFF0000 : 0);
+            }
+        }
+        // 16384 of ambient is a quarter where the light does not reach: a normal the other way.
+        OrreryBox box = new OrreryBox(16, 16);
+        box.light(0, 0, 0, 65536);
+        Due.load(box, text.replace("0,0,-65536", "0,0,65536"));
+        Due.drawAll(box);
+        Due.is("the first ambient", box.pixel(8, 8), 63 * 65536);
+    }
+
+    /** The first light to the very number: 16384 and 49151 of -65536 are one less than all of it. */
+    private static void firstLight() {
+        int[][] due = {{0, 0, -49151, 254}, {0, 0, -49152, 255}, {65536, 0, -49151, 254}, {-65536, 0, -49151, 254},
+            {0, 65536, -49151, 254}, {0, -65536, -49151, 254}, {65536, 65536, -49152, 255}, {-65536, -65536, -49152, 255}};
+        for (int[] d : due) {
+            for (int loads = 1; loads < 5; loads += 3) {
+                OrreryBox box = new OrreryBox(16, 16);
+                String normal = d[0] + "," + d[1] + "," + d[2];
+                for (int i = 0; i < loads; i++) {
+                    Due.is("load", Due.load(box, Texts.redSquare().replace("0,0,-65536", normal)), 1);
+                    if (i + 1 < loads) {
+                        box.light(i, 9, 9, 9);
+                    }
+                }
+                box.begin();
+                box.tile(0);
+                Due.is("lit at " + normal, box.pixel(4, 4), d[3] * 65536);
+            }
+        }
+    }
+
+    /** What a text says of a node, the camera and the light is what the calls could have said. */
+    private static void asTheCallsSay() {
+        String square = Texts.scene("", Texts.material(250, 120, 60, 255, -1, 1), Texts.square(0, 40000),
+            "{\"parent\":-1,\"mesh\":0,\"move\":[1,2,262143],\"turn\":[3,50,7],\"size\":[70000,80000,90000]}", "");
+        String named = square.substring(0, square.length() - 1) + ",\"camera\":{\"move\":[20000,3000,-40000],"
+            + "\"turn\":[60,-50,400],\"focus\":41},\"light\":{\"toward\":[-9000,7000,-50000],\"ambient\":11}}";
+        OrreryBox told = new OrreryBox(16, 16);
+        OrreryBox called = new OrreryBox(16, 16);
+        Due.is("load", Due.load(told, named), 1);
+        Due.is("load", Due.load(called, square.replace("1,2,262143", "0,0,0").replace("3,50,7", "0,0,0")
+            .replace("70000,80000,90000", "0,0,0")), 1);
+        called.set(0, 0, 1, 2, 262143);
+        called.set(0, 1, 3, 50, 7);
+        called.set(0, 2, 70000, 80000, 90000);
+        called.camera(0, 20000, 3000, -40000);
+        called.camera(1, 60, -50, 400);
+        called.camera(2, 41, 0, 0);
+        called.light(-9000, 7000, -50000, 11);
+        for (int k = 0; k < 12; k++) {
+            Due.is("world " + k, told.world(0, k / 4, k % 4), called.world(0, k / 4, k % 4));
+        }
+        Due.is("its turn about x", told.world(0, 2, 1) > 0 && told.world(0, 0, 2) > 0 && told.world(0, 1, 0) > 0, true);
+        Due.drawAll(told);
+        Due.drawAll(called);
+        int drawn = 0;
+        for (int i = 0; i < 256; i++) {
+            Due.is("pixel " + i, told.pixel(i % 16, i / 16), called.pixel(i % 16, i / 16));
+            drawn += told.pixel(i % 16, i / 16) > 0 ? 1 : 0;
+        }
+        Due.is("a part of the picture", drawn > 40 && drawn < 216, true);
+    }
+
+    /** Scene after scene in the same object: nothing of an earlier one is left in a later one. */
+    private static void sceneAfterScene() {
+        String full = Texts.scene(Texts.repeat(Texts.texture(8, 1, 1, Texts.repeat("200", 192)), 8),
+            Texts.repeat(Texts.material(9, 9, 9, 9, 7, 1), 16), Texts.square(15, 65536), Texts.repeat(Texts.node(-1, 0, 9, 9, 9), 20),
+            Texts.repeat(Texts.track(3, 1, 1, "1,2", "1,2,3,4,5,6"), 9));
+        String named = full.substring(0, full.length() - 1)
+            + ",\"camera\":{\"move\":[4,5,6],\"turn\":[7,8,9],\"focus\":77},\"light\":{\"toward\":[1,2,65536],\"ambient\":7}}";
+        String small = Texts.scene(Texts.texture(2, 0, 0, "255,0,0,0,255,0,0,0,255,99,98,97"),
+            Texts.material(255, 255, 255, 255, 0, 0), Texts.square(0, 8000), Texts.node(-1, 0, 0, 0, 262144), "");
+        for (int loads = 0; loads <= 4; loads++) {
+            OrreryBox box = new OrreryBox(16, 16);
+            OrreryBox fresh = new OrreryBox(16, 16);
+            for (int i = 0; i < loads; i++) {
+                Due.is("load", Due.load(box, named), 20);
+                box.time(44);
+                box.hide(0, true);
+                if (i == 1) {
+                    box.begin();
+                }
+            }
+            Due.is("load", Due.load(box, "{}"), 0);
+            for (int what = 0; what < 6; what++) {
+                Due.is("count(" + what + ") after " + loads, box.count(what), 0);
+            }
+            Due.is("load", Due.load(box, small), 1);
+            Due.is("load", Due.load(fresh, small), 1);
+            Due.is("time", box.count(5), 0);
+            box.begin();
+            fresh.begin();
+            for (int k = 0; k < 4; k++) {
+                Due.is("tile", box.tile(k), fresh.tile(k));
+            }
+            for (int i = 5; i < 11; i++) {
+                for (int j = 5; j < 11; j++) {
+                    Due.is("pixel after " + loads, box.pixel(i, j), fresh.pixel(i, j));
+                    Due.is("pick after " + loads, box.pick(i, j), fresh.pick(i, j));
+                }
+            }
+        }
+    }
+
     private static String scene(OrreryBox box) {
         StringBuilder told = new StringBuilder();
         for (int what = 0; what < 6; what++) {
@@ -262,6 +386,29 @@ public final class PromisesTest {
         }
     }
 
+    /** What is outside is NONE, though a piece may reach far beyond the picture and all tiles are done. */
+    private static void outside() {
+        OrreryBox box = new OrreryBox(16, 16);
+        Due.load(box, Texts.scene("", Texts.material(255, 0, 0, 255, -1, 1), Texts.square(0, 1048576),
+            Texts.node(-1, 0, 0, 0, 262144), ""));
+        Due.drawAll(box);
+        int[][] out = {{-1, 5}, {16, 5}, {5, -1}, {5, 16}, {-1, 15}, {16, 0}, {-8, 8}, {24, 8}, {8, -8}, {8, 24}, {-1, -1}};
+        for (int[] p : out) {
+            Due.is("pixel", box.pixel(p[0], p[1]), -1);
+            Due.is("nearness", box.nearness(p[0], p[1]), -1);
+            Due.is("pick", box.pick(0, 15), 0);
+            Due.is("pick outside", box.pick(p[0], p[1]), -1);
+            Due.is("picked", box.picked(), -1);
+        }
+        int[][] in = {{0, 0}, {15, 0}, {0, 15}, {15, 15}};
+        for (int[] p : in) {
+            Due.is("pixel", box.pixel(p[0], p[1]), 0xFF0000);
+            Due.is("nearness", box.nearness(p[0], p[1]), 16384);
+            Due.is("pick", box.pick(p[0], p[1]), 0);
+            Due.is("picked", box.picked() >= 0, true);
+        }
+    }
+
     /** "NONE if not all its tiles are done": whichever is missing. */
     private static void everyTileMissing() {
         for (int missing = 0; missing < 9; missing++) {
@@ -302,10 +449,15 @@ public final class PromisesTest {
     public static void main(String[] args) {
         tape();
         load();
+        firstOnesAgain();
+        firstLight();
+        asTheCallsSay();
+        sceneAfterScene();
         countAndTime();
         nodes();
         cameraAndLight();
         pictures();
+        outside();
         everyTileMissing();
         beginAgain();
         Due.close("PromisesTest");

@@ -58,6 +58,21 @@ public final class TermsTest {
         }
     }
 
+    /** The same for a whole turn, by the document's own words. */
+    private static void everySine() {
+        OrreryBox box = null;
+        for (int k = 0; k < 4096; k++) {
+            if (k % 200 == 0) {
+                box = loaded(8, 8, Texts.scene("", "", "", Texts.nodes(1), ""));
+            }
+            long half = k % 2048;
+            long p = half * (2048 - half);
+            long due = Math.floorDiv(1048576 * p, 20971520 - 4 * p) * (k < 2048 ? 1 : -1);
+            box.set(0, 1, 0, 0, k);
+            Due.is("SIN(" + k + ")", box.world(0, 1, 0), due);
+        }
+    }
+
     /** "DIV(a, b): the greatest whole number that is not above a / b": also of one below 0. */
     private static void downwards() {
         OrreryBox box = loaded(8, 8, Texts.scene("", "", "", Texts.nodes(1), ""));
@@ -302,6 +317,115 @@ public final class TermsTest {
         Due.is("faces " + faces + " with both " + both, box.nearness(10, 5), node < 0 ? 0 : 16384);
     }
 
+    /** All triangles between nine points a 16th of a pixel apart, round a pixel's middle: E and AREA are 0, 1, -1 and 2. */
+    private static void tinyPieces() {
+        StringBuilder points = new StringBuilder();
+        for (int i = 0; i < 9; i++) {
+            points.append(i == 0 ? "" : ",").append(4096 + 512 * (i % 3 - 1)).append(",").append(4096 + 512 * (i / 3 - 1))
+                .append(",0");
+        }
+        for (int i = 0; i < 2 * 729; i++) {
+            int both = i % 2;
+            int[] c = {i / 2 % 9, i / 18 % 9, i / 162};
+            OrreryBox box = loaded(16, 16, Texts.scene("", Texts.material(9, 9, 9, 255, -1, both),
+                mesh(points.toString(), "0,0,-65536", c[0] + "," + c[1] + "," + c[2]), Texts.node(-1, 0, 0, 0, 262144), ""));
+            boolean in = covers(c[0], c[1], c[2]) || both == 1 && covers(c[0], c[2], c[1]);
+            String name = "face " + c[0] + " " + c[1] + " " + c[2] + " with both " + both;
+            Due.is(name, box.pick(8, 8), in ? 0 : -1);
+            Due.drawAll(box);
+            Due.is(name, box.nearness(8, 8), in ? 16384 : 0);
+            Due.is(name, box.nearness(7, 8) + box.nearness(8, 7), 0);
+        }
+    }
+
+    /** The pixel's middle is point 4: 0 0 of -1 .. 1. */
+    private static boolean covers(int a, int b, int c) {
+        int area = (b % 3 - a % 3) * (c / 3 - a / 3) - (c % 3 - a % 3) * (b / 3 - a / 3);
+        return area > 0 && within(b, c) && within(c, a) && within(a, b);
+    }
+
+    private static boolean within(int a, int b) {
+        int e = (b % 3 - a % 3) * (1 - a / 3) - (b / 3 - a / 3) * (1 - a % 3);
+        return e > 0 || e == 0 && (b / 3 < a / 3 || b / 3 == a / 3 && b % 3 > a % 3);
+    }
+
+    /** A corner that is too near by 1: two new ones come in its place. */
+    private static void nearByOne() {
+        String mesh = mesh("-8192,-8192,8192,8192,-8192,8192,0,8192,4095", "0,0,-65536", "0,1,2");
+        for (int z = -1; z <= 1; z++) {
+            OrreryBox box = loaded(16, 16, white("", mesh, Texts.node(-1, 0, 0, 0, z)));
+            box.camera(2, 8, 0, 0);
+            Due.is("one corner at z " + (4095 + z), box.pick(8, 5), 0);
+        }
+    }
+
+    /** 128 points and 128 faces: the last ones are as good as the first. */
+    private static void manyPoints() {
+        String square = "-65536,-65536,0,65536,-65536,0,65536,65536,0,-65536,65536,0";
+        String mesh = "{\"material\":0,\"points\":[" + Texts.repeat("0,0,0", 124) + "," + square + "],\"normals\":["
+            + Texts.repeat("0,0,0", 124) + "," + Texts.repeat("0,0,-49152", 4) + "],\"places\":[" + Texts.repeat("0,0", 124)
+            + ",0,0,65536,0,65536,65536,0,65536],\"faces\":[" + Texts.repeat("0,1,2", 126) + ",124,125,126,124,126,127]}";
+        String texture = Texts.texture(2, 0, 0, "255,0,0,0,255,0,0,0,255,255,255,255");
+        OrreryBox box = loaded(16, 16, white(texture, mesh, Texts.node(-1, 0, 0, 0, 262144)));
+        box.light(0, 0, -65536, 0);
+        Due.drawAll(box);
+        int[] quarter = {0xBF0000, 0x00BF00, 0x0000BF, 0xBFBFBF};
+        for (int i = 0; i < 256; i++) {
+            Due.is("pixel " + i, box.pixel(i % 16, i / 16), quarter[i / 128 * 2 + i % 16 / 8]);
+        }
+        Due.is("pick", box.pick(10, 5), 0);
+        Due.is("the face before the last one", box.picked(), 126);
+        Due.is("pick", box.pick(5, 10), 0);
+        Due.is("the last face", box.picked(), 127);
+    }
+
+    /** VIEW undoes the camera's turn and move: what is turned as it is, and straight before it, looks as ever. */
+    private static void viewOfTurns() {
+        for (int i = 0; i < 64; i++) {
+            OrreryBox box = loaded(16, 16, white("", Texts.square(0, 32768), Texts.node(-1, 0, 0, 0, 0)));
+            int[] turn = {i % 4 * 1024, i / 4 % 4 * 1024, i / 16 * 1024};
+            box.set(0, 1, turn[0], turn[1], turn[2]);
+            Due.is("turn", box.camera(1, turn[0], turn[1], turn[2]), true);
+            Due.is("move", box.camera(0, 5000, -70000, 900000), true);
+            box.set(0, 0, 5000 + 4 * box.world(0, 0, 2), -70000 + 4 * box.world(0, 1, 2), 900000 + 4 * box.world(0, 2, 2));
+            Due.is("upper right", box.pick(11, 4), 0);
+            Due.is("upper right", box.picked(), 0);
+            Due.is("lower left", box.pick(4, 11), 0);
+            Due.is("lower left", box.picked(), 1);
+            Due.is("beside it", box.pick(12, 8), -1);
+            Due.is("above it", box.pick(8, 3), -1);
+            box.begin();
+            box.tile(0);
+            Due.is("nearness", box.nearness(7, 7), 16384);
+        }
+    }
+
+    /** d is the sum over three axes, of the normal as the node turns it. */
+    private static void lightOfAxes() {
+        String[] normals = {"-32768,0,0", "0,-32768,0", "0,0,-32768", "-16384,-16384,0", "-16384,0,-16384", "32768,-32768,-32768"};
+        int[][] due = {{127, 0, 0}, {0, 127, 0}, {0, 0, 127}, {63, 63, 0}, {63, 0, 63}, {0, 127, 127}};
+        for (int n = 0; n < normals.length; n++) {
+            String mesh = mesh("-65536,-65536,0,65536,-65536,0,65536,65536,0,-65536,65536,0", normals[n], "0,1,2,0,2,3");
+            for (int axis = 0; axis < 3; axis++) {
+                OrreryBox box = loaded(16, 16, white("", mesh, Texts.node(-1, 0, 0, 0, 262144)));
+                box.light(axis == 0 ? -65536 : 0, axis == 1 ? -65536 : 0, axis == 2 ? -65536 : 0, 0);
+                Due.drawAll(box);
+                Due.is("normal " + normals[n] + ", light along " + axis, box.pixel(8, 8) & 255, due[n][axis]);
+            }
+            OrreryBox box = loaded(16, 16, white("", mesh, Texts.node(-1, 0, 0, 0, 262144)));
+            box.light(-65536, -65536, -65536, 0);
+            Due.drawAll(box);
+            Due.is("normal " + normals[n] + ", light along all", box.pixel(8, 8) & 255, 127);
+        }
+        // A quarter about z turns x into y.
+        String mesh = mesh("-65536,-65536,0,65536,-65536,0,65536,65536,0,-65536,65536,0", "-32768,0,0", "0,1,2,0,2,3");
+        OrreryBox box = loaded(16, 16, white("", mesh, Texts.node(-1, 0, 0, 0, 262144)));
+        box.set(0, 1, 0, 0, 1024);
+        box.light(0, -65536, 0, 0);
+        Due.drawAll(box);
+        Due.is("a normal is turned with its node", box.pixel(8, 8) & 255, 127);
+    }
+
     // ---- textures
 
     /** "WRAP: a number beyond 0 .. s - 1", in columns by u and rows by v; places from -2 to 2. */
@@ -366,24 +490,89 @@ public final class TermsTest {
         }
     }
 
-    /** A side of 32 has six levels; a square of one pixel shows the last one, the mean of means, each rounded down. */
+    /** A side of 32 has six levels: each texel is the mean of four, rounded down; a square of one pixel has the last. */
     private static void lastLevel() {
         StringBuilder texels = new StringBuilder();
         for (int i = 0; i < 1024; i++) {
-            texels.append(i == 0 ? "" : ",").append(i == 0 ? "255,3,3" : i == 1 || i == 32 || i == 33 ? "255,3,3" : "3,3,3");
+            boolean bright = (i % 32 == 16 || i % 32 == 17) && (i / 32 == 16 || i / 32 == 17);
+            texels.append(i == 0 ? "" : ",").append(bright ? "255,3,3" : "3,3,3");
         }
         // Red: 255, then (255 + 9) / 4 = 66, (66 + 9) / 4 = 18, 6 (27 / 4), 3 (15 / 4).
         int[] due = {255, 255, 66, 18, 6, 3};
         for (int level = 0; level <= 5; level++) {
-            int half = 131072 >> level;
-            String text = white(Texts.texture(32, 1, 0, texels.toString()), Texts.square(0, half),
-                Texts.node(-1, 0, half, half, 262144));
-            OrreryBox box = loaded(48, 48, text);
-            // 32 pixels wide at level 0: the square's first pixel is 24, 24.
-            box.camera(2, 32, 0, 0);
-            Due.drawAll(box);
+            int move = level == 5 ? 4096 : 0;
+            OrreryBox box = drawn(48, 48, white(Texts.texture(32, 1, 0, texels.toString()),
+                Texts.square(0, 131072 >> level), Texts.node(-1, 0, move, move, 262144)));
+            // 32 pixels wide at level 0; right and below of the middle begins the texel with the bright ones.
             Due.is("level " + level, box.pixel(24, 24), due[level] * 65536 + 3 * 256 + 3);
         }
+    }
+
+    /** "each texel of it DIV(the four of the level before, summed, 4)": each of the four counts. */
+    private static void meansOfFour() {
+        for (int k = 0; k < 4; k++) {
+            StringBuilder texels = new StringBuilder();
+            for (int i = 0; i < 4; i++) {
+                texels.append(i == 0 ? "" : ",").append(i == k ? "255,8,3" : "0,0,0");
+            }
+            OrreryBox box = drawn(16, 16, white(Texts.texture(2, 0, 0, texels.toString()), Texts.square(0, 4096),
+                Texts.node(-1, 0, 4096, 4096, 262144)));
+            Due.is("the mean with " + k, box.pixel(8, 8), 63 * 65536 + 2 * 256);
+        }
+    }
+
+    /** "the least L for which |..| * side * side <= AREA * 16777216 * 4^L": just as much, one less, one more. */
+    private static void levelBounds() {
+        String dark = "0,0,0,255,255,255,0,0,0,255,255,255";
+        String light = "255,255,255,0,0,0,255,255,255,0,0,0";
+        String texture = Texts.texture(4, 0, 0, dark + "," + light + "," + dark + "," + light);
+        String[] fit = {"0,0,65536,0,0,65536", "0,0,65536,1,1,65536", "0,0,0,65536,65536,0", "9,9,9,9,9,9", "0,0,0,0,65536,0"};
+        String[] more = {"0,0,65536,-1,1,65536", "0,0,65536,1,-1,65536", "0,0,-1,65536,65536,1", "-131072,0,131072,0,0,131072"};
+        for (int i = 0; i < fit.length + more.length; i++) {
+            String places = i < fit.length ? fit[i] : more[i - fit.length];
+            // A triangle of 4 by 4 pixels has AREA 64 * 64: 2^32 * 4 * 4 is just as much as 4096 * 2^24.
+            String mesh = "{\"material\":0,\"points\":[-16384,-16384,0,16384,-16384,0,-16384,16384,0],\"normals\":["
+                + Texts.repeat("0,0,-65536", 3) + "],\"places\":[" + places + "],\"faces\":[0,1,2]}";
+            OrreryBox box = drawn(16, 16, white(texture, mesh, Texts.node(-1, 0, 0, 0, 262144)));
+            int colour = box.pixel(6, 6);
+            Due.is("it is there", box.nearness(6, 6), 16384);
+            Due.is("level 0 of " + places, colour == 0 || colour == 0xFFFFFF, i < fit.length);
+            Due.is("level 1 of " + places, colour == 0x7F7F7F, i >= fit.length);
+        }
+    }
+
+    /** All corners at the same place: it is just that one at every pixel. */
+    private static void exactPlaces() {
+        int[] at = {-131072, -131071, -65537, -65536, -65535, -49153, -16385, -16384, -16383, -1, 0, 1, 8191, 8192, 8193, 16383,
+            16384, 32767, 32768, 49152, 65535, 65536, 65537, 131071, 131072};
+        int[] texel = {10, 60, 110, 210};
+        for (int n = 0; n < 6 * at.length; n++) {
+            int wrap = n % 3;
+            int soft = n / 3 % 2;
+            int u = at[n / 6];
+            int v = at[(n / 6 * 7 + 3) % at.length];
+            String places = "\"places\":[" + Texts.repeat(u + "," + v, 4) + "]";
+            OrreryBox box = drawn(8, 8, white(Texts.texture(2, wrap, soft, "10,0,0,60,0,0,110,0,0,210,0,0"),
+                Texts.square(0, 65536).replace("\"places\":[0,0,65536,0,65536,65536,0,65536]", places),
+                Texts.node(-1, 0, 0, 0, 262144)));
+            int a = 2 * u - 32768 * soft;
+            int b = 2 * v - 32768 * soft;
+            int i = Math.floorDiv(a, 65536);
+            int j = Math.floorDiv(b, 65536);
+            int g = soft * Math.floorDiv(a - 65536 * i, 256);
+            int k = soft * Math.floorDiv(b - 65536 * j, 256);
+            int due = texel[2 * round(j, wrap) + round(i, wrap)] * (256 - g) * (256 - k)
+                + texel[2 * round(j, wrap) + round(i + 1, wrap)] * g * (256 - k)
+                + texel[2 * round(j + 1, wrap) + round(i, wrap)] * (256 - g) * k
+                + texel[2 * round(j + 1, wrap) + round(i + 1, wrap)] * g * k >> 16;
+            Due.is("texel at " + u + ", " + v + ", wrap " + wrap + ", soft " + soft, box.pixel(5, 2) >> 16, due);
+        }
+    }
+
+    /** A number from -5 on, of a side of 2. */
+    private static int round(int i, int wrap) {
+        int[][] due = {{1, 0, 1, 0, 1, 0, 1, 0, 1, 0, 1}, {0, 0, 0, 0, 0, 0, 1, 1, 1, 1, 1}, {0, 0, 1, 1, 0, 0, 1, 1, 0, 0, 1}};
+        return due[wrap][i + 5];
     }
 
     // ---- THE ORDER, TILES
@@ -408,6 +597,29 @@ public final class TermsTest {
             Due.is("clear at " + d[0], box.pixel(8, 8), d[1]);
             Due.is("the solid one's nearness at " + d[0], box.nearness(8, 8), 16384);
         }
+    }
+
+    /** 48 clear ones in a mixed order: the farthest first, each over those before it. */
+    private static void orderOfMany() {
+        StringBuilder nodes = new StringBuilder();
+        int[] far = new int[48];
+        for (int i = 0; i < 48; i++) {
+            far[i] = 200000 + i * 29 % 48 / 2 * 4000;
+            nodes.append(i == 0 ? "" : ",").append(Texts.node(-1, i % 3, 0, 0, far[i]));
+        }
+        String materials = Texts.material(255, 0, 0, 60, -1, 0) + "," + Texts.material(0, 255, 0, 60, -1, 0) + ","
+            + Texts.material(0, 0, 255, 60, -1, 0);
+        String meshes = Texts.square(0, 65536) + "," + Texts.square(1, 65536) + "," + Texts.square(2, 65536);
+        OrreryBox box = drawn(16, 16, Texts.scene("", materials, meshes, nodes.toString(), ""));
+        int[] colour = new int[3];
+        for (int z = 300000; z >= 200000; z -= 1000) {
+            for (int i = 0; i < 48; i++) {
+                for (int k = 0; k < 3 && far[i] == z; k++) {
+                    colour[k] = ((i % 3 == k ? 255 : 0) * 60 + colour[k] * 195) / 255;
+                }
+            }
+        }
+        Due.is("mixed", box.pixel(8, 8), colour[0] * 65536 + colour[1] * 256 + colour[2]);
     }
 
     /** "the fourth: 255 is solid, less is clear": from 254 down to 0. */
@@ -447,6 +659,7 @@ public final class TermsTest {
 
     public static void main(String[] args) {
         sines();
+        everySine();
         downwards();
         boundOfMatrices();
         boundOfPoints();
@@ -459,11 +672,20 @@ public final class TermsTest {
         beyondSides();
         edges();
         areas();
+        tinyPieces();
+        nearByOne();
+        manyPoints();
+        viewOfTurns();
+        lightOfAxes();
         wraps();
         softEdges();
         oneTexel();
         lastLevel();
+        meansOfFour();
+        levelBounds();
+        exactPlaces();
         greaterNearness();
+        orderOfMany();
         clearness();
         tiles();
         Due.close("TermsTest");
