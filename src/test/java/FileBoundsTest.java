@@ -324,6 +324,7 @@ public final class FileBoundsTest {
             Due.drawAll(box);
             check("noise " + run, box, width, height);
         }
+        harshOne(chance);
         for (int filter = 0; filter < 5; filter++) {
             Due.is("filter " + filter + " was there", FILTERS.contains(filter), true);
         }
@@ -333,6 +334,20 @@ public final class FileBoundsTest {
         for (int d = 1; d <= 40; d++) {
             Due.is("a distance of " + d + " was there", DISTANCES.contains(d), true);
         }
+    }
+
+    /** A texel for each pixel, 0 or 128: rows whose sums are as great as can be, with every filter. */
+    private static void harshOne(Random chance) {
+        StringBuilder texels = new StringBuilder();
+        for (int i = 0; i < 3072; i++) {
+            texels.append(i == 0 ? "" : ",").append(chance.nextInt(2) * 128);
+        }
+        String square = Texts.square(0, 196608).replace("[0,0,65536,0,65536,65536,0,65536]", "[0,0,98304,0,98304,98304,0,98304]");
+        OrreryBox box = new OrreryBox(48, 48);
+        Due.is("load", Due.load(box, Texts.scene(Texts.texture(32, 2, 0, texels.toString()),
+            Texts.material(255, 255, 255, 255, 0, 1), square, Texts.node(-1, 0, 0, 0, 262144), "")), 1);
+        Due.drawAll(box);
+        check("harsh", box, 48, 48);
     }
 
     /** The first and the last length of every sign. */

@@ -128,6 +128,13 @@ public final class PiecesTest {
         halvesAre("four are hidden, and one is behind", box, 46, 0, 1);
     }
 
+    /** However many are nothing one behind the other: here each face is cut to a line of seven corners or so. */
+    private static void manyNothings() {
+        String line = "-300,-300,4000,300,300,4300,300,300,4300";
+        OrreryBox box = loaded(255, 255, nodes(47, 1), many(0, line, 128), mesh(1, NEAR, "0,1,2,0,2,3"));
+        halvesAre("6,016 faces that are nothing", box, 47, 0, 1);
+    }
+
     /** Solid ones come first, whatever their numbers; clear ones are counted behind them. */
     private static void solidOnesFirst() {
         OrreryBox box = loaded(100, 255, nodes(46, 1), many(0, SEVEN, 128), mesh(1, NEAR, "0,1,2,0,2,3"));
@@ -153,6 +160,7 @@ public final class PiecesTest {
         piecesOfOneFace();
         furtherOnesAreNothing();
         whatIsNotCounted();
+        manyNothings();
         solidOnesFirst();
         nineCorners();
         Due.close("PiecesTest");

@@ -171,7 +171,7 @@ public final class PromisesTest {
         String square = Texts.scene("", Texts.material(250, 120, 60, 255, -1, 1), Texts.square(0, 40000),
             "{\"parent\":-1,\"mesh\":0,\"move\":[1,2,262143],\"turn\":[3,50,7],\"size\":[70000,80000,90000]}", "");
         String named = square.substring(0, square.length() - 1) + ",\"camera\":{\"move\":[20000,3000,-40000],"
-            + "\"turn\":[60,-50,400],\"focus\":41},\"light\":{\"toward\":[-9000,7000,-50000],\"ambient\":11}}";
+            + "\"turn\":[60,-50,400],\"focus\":41},\"light\":{\"toward\":[-9000,7000,-20000],\"ambient\":11}}";
         OrreryBox told = new OrreryBox(16, 16);
         OrreryBox called = new OrreryBox(16, 16);
         Due.is("load", Due.load(told, named), 1);
@@ -183,7 +183,7 @@ public final class PromisesTest {
         called.camera(0, 20000, 3000, -40000);
         called.camera(1, 60, -50, 400);
         called.camera(2, 41, 0, 0);
-        called.light(-9000, 7000, -50000, 11);
+        called.light(-9000, 7000, -20000, 11);
         for (int k = 0; k < 12; k++) {
             Due.is("world " + k, told.world(0, k / 4, k % 4), called.world(0, k / 4, k % 4));
         }
@@ -204,7 +204,8 @@ public final class PromisesTest {
             Texts.repeat(Texts.material(9, 9, 9, 9, 7, 1), 16), Texts.square(15, 65536), Texts.repeat(Texts.node(-1, 0, 9, 9, 9), 20),
             Texts.repeat(Texts.track(3, 1, 1, "1,2", "1,2,3,4,5,6"), 9));
         String named = full.substring(0, full.length() - 1)
-            + ",\"camera\":{\"move\":[4,5,6],\"turn\":[7,8,9],\"focus\":77},\"light\":{\"toward\":[1,2,65536],\"ambient\":7}}";
+            + ",\"camera\":{\"move\":[40000,50000,60000],\"turn\":[700,800,900],\"focus\":77},"
+            + "\"light\":{\"toward\":[1,2,65536],\"ambient\":7}}";
         String small = Texts.scene(Texts.texture(2, 0, 0, "255,0,0,0,255,0,0,0,255,99,98,97"),
             Texts.material(255, 255, 255, 255, 0, 0), Texts.square(0, 8000), Texts.node(-1, 0, 0, 0, 262144), "");
         for (int loads = 0; loads <= 4; loads++) {

@@ -349,13 +349,21 @@ public final class TermsTest {
         return e > 0 || e == 0 && (b / 3 < a / 3 || b / 3 == a / 3 && b % 3 > a % 3);
     }
 
-    /** A corner that is too near by 1: two new ones come in its place. */
+    /** A corner that is too near by 1, two that are far enough by 1: half way between them two new ones come. */
     private static void nearByOne() {
-        String mesh = mesh("-8192,-8192,8192,8192,-8192,8192,0,8192,4095", "0,0,-65536", "0,1,2");
-        for (int z = -1; z <= 1; z++) {
-            OrreryBox box = loaded(16, 16, white("", mesh, Texts.node(-1, 0, 0, 0, z)));
+        String[] orders = {"0,1,2", "1,2,0", "2,0,1"};
+        for (String order : orders) {
+            String mesh = mesh("-4096,-4096,4097,4096,-4096,4097,0,4096,4095", "0,0,-65536", order);
+            OrreryBox box = loaded(16, 16, white("", mesh, Texts.node(-1, 0, 0, 0, 0)));
             box.camera(2, 8, 0, 0);
-            Due.is("one corner at z " + (4095 + z), box.pick(8, 5), 0);
+            Due.is("beside one of them", box.pick(5, 7), 0);
+            Due.is("beside the other one", box.pick(10, 7), 0);
+            Due.is("between them", box.pick(8, 7), 0);
+            Due.is("below them", box.pick(8, 8), -1);
+            box.set(0, 0, 0, 0, 1);
+            Due.is("just far enough", box.pick(8, 8), 0);
+            box.set(0, 0, 0, 0, -1);
+            Due.is("all of it is too near, but an edge", box.pick(8, 7), -1);
         }
     }
 
