@@ -1,29 +1,47 @@
 import java.util.NoSuchElementException;
 import java.util.Random;
 
-/** Runs of calls by chance, on OrreryBox and on the plain model: every answer must be the same. */
+/** Runs of calls by chance, on Fresh and on the plain model: every answer must be the same. */
 public final class AgainstPlainTest {
-    private final Random chance;
+    /** So many calls as the largest picture's tiles, and a few more, are kept for what comes behind a load. */
+    private static final int PICTURE_CALLS = 48;
+
     private final SceneMaker maker;
-    private final OrreryBox box;
-    private final PlainBox plain;
+    private final int width;
+    private final int height;
     private final String run;
+    private Fresh box;
+    private PlainBox plain;
 
     private AgainstPlainTest(int seed) {
         this(seed, 4, 52);
     }
 
     private AgainstPlainTest(int seed, int least, int most) {
-        chance = new Random(seed);
-        maker = new SceneMaker(chance);
-        int width = maker.from(least, most);
-        int height = maker.once(2) ? maker.from(8, Math.min(16, most)) : maker.from(least, most);
-        box = new OrreryBox(width, height);
-        plain = new PlainBox(width, height);
+        maker = new SceneMaker(new Random(seed));
+        width = maker.from(least, most);
+        height = maker.once(2) ? maker.from(8, Math.min(16, most)) : maker.from(least, most);
         run = "run " + seed + ": ";
+        renew();
+    }
+
+    private void renew() {
+        box = new Fresh(width, height);
+        plain = new PlainBox(width, height);
+    }
+
+    private static int callsFor(String text) {
+        return (text.length() + 19) / 20 + 2;
     }
 
     private void load(String text) {
+        if (box.left() < callsFor(text) + PICTURE_CALLS) {
+            renew();
+        }
+        put(text);
+    }
+
+    private void put(String text) {
         for (int[] row : Due.rowsOf(text)) {
             Due.is(run + "feed", box.feed(row[0], row[1], row[2], row[3], row[4]), plain.feed(row));
         }
@@ -41,6 +59,9 @@ public final class AgainstPlainTest {
     }
 
     private void call() {
+        if (box.left() < PICTURE_CALLS) {
+            load(maker.right());
+        }
         int node = maker.from(-1, Math.max(1, plain.count(3)));
         int[] n = {maker.from(-300000, 300000), maker.from(-300000, 300000), maker.from(-100000, 300000)};
         switch (maker.below(16)) {
@@ -98,7 +119,7 @@ public final class AgainstPlainTest {
     }
 
     private interface OnBox {
-        boolean of(OrreryBox box, int t);
+        boolean of(Fresh box, int t);
     }
 
     private interface OnPlain {
@@ -132,8 +153,9 @@ public final class AgainstPlainTest {
         int tiles = plain.begin();
         Due.is(run + "begin()", box.begin(), tiles);
         boolean some = maker.once(4);
-        if (maker.once(3)) {
-            load(maker.right());
+        String next = maker.right();
+        if (maker.once(2) && box.left() >= callsFor(next) + PICTURE_CALLS) {
+            put(next);
         }
         if (maker.once(3)) {
             Due.is(run + "background", box.background(1, 2, 3), plain.background(1, 2, 3));
@@ -168,7 +190,7 @@ public final class AgainstPlainTest {
     }
 
     public static void main(String[] args) {
-        int runs = args.length > 0 ? Integer.parseInt(args[0]) : 150;
+        int runs = args.length > 0 ? Integer.parseInt(args[0]) : 100;
         int from = args.length > 1 ? Integer.parseInt(args[1]) : 0;
         for (int seed = from; seed < from + runs && Due.failures() < 50; seed++) {
             AgainstPlainTest test = new AgainstPlainTest(seed);

@@ -46,7 +46,7 @@ final class Due {
         return rows;
     }
 
-    static void tape(OrreryBox box, String text) {
+    static void tape(Fresh box, String text) {
         for (int[] row : rowsOf(text)) {
             box.feed(row[0], row[1], row[2], row[3], row[4]);
         }
@@ -54,7 +54,7 @@ final class Due {
     }
 
     /** What load answers, or ILLEGAL_ARGUMENT. */
-    static long load(OrreryBox box) {
+    static long load(Fresh box) {
         try {
             return box.load();
         } catch (IllegalArgumentException e) {
@@ -62,13 +62,13 @@ final class Due {
         }
     }
 
-    static long load(OrreryBox box, String text) {
+    static long load(Fresh box, String text) {
         tape(box, text);
         return load(box);
     }
 
     /** What world answers, or NO_SUCH_ELEMENT. */
-    static long world(OrreryBox box, int node, int i, int j) {
+    static long world(Fresh box, int node, int i, int j) {
         try {
             return box.world(node, i, j);
         } catch (NoSuchElementException e) {
@@ -76,7 +76,7 @@ final class Due {
         }
     }
 
-    static void drawAll(OrreryBox box) {
+    static void drawAll(Fresh box) {
         int tiles = box.begin();
         for (int k = 0; k < tiles; k++) {
             box.tile(k);

@@ -73,6 +73,15 @@ public final class FaceTest {
         return sum;
     }
 
+    private static void load(OrreryBox box, String text) {
+        for (int[] row : Due.rowsOf(text)) {
+            box.feed(row[0], row[1], row[2], row[3], row[4]);
+        }
+        box.end(text.length());
+        Due.is("load", box.load(), 1);
+    }
+
+    /** "All memory is the engine's own, made once"; a run has room for some 7.3 million and 600,000. */
     private static void room() throws IllegalAccessException {
         OrreryBox box = new OrreryBox(48, 48);
         Set<Object> before = Collections.newSetFromMap(new IdentityHashMap<>());
@@ -80,11 +89,14 @@ public final class FaceTest {
         System.out.println("an object holds " + before.size() + " objects and arrays, " + fields + " fields and elements");
         Due.is("fields and elements", fields < 1000000, true);
         Due.is("objects and arrays", before.size() < 2000, true);
-        Due.load(box, Texts.redSquare());
-        Due.load(box, "{");
+        load(box, Texts.redSquare());
         box.time(3);
         box.pick(3, 3);
-        Due.drawAll(box);
+        int tiles = box.begin();
+        load(box, Texts.redSquare());
+        for (int k = 0; k < tiles; k++) {
+            box.tile(k);
+        }
         box.file();
         Set<Object> after = Collections.newSetFromMap(new IdentityHashMap<>());
         Due.is("nothing more is held after use", held(box, after), fields);

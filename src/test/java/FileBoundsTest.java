@@ -15,22 +15,27 @@ public final class FileBoundsTest {
     private static final TreeSet<Integer> FILTERS = new TreeSet<>();
     private static final TreeSet<Integer> BYTES = new TreeSet<>();
 
-    private final OrreryBox box;
+    private final Fresh box;
     private final int width;
     private final int height;
     private final String name;
+    private final int[] colours;
     private int[] bytes;
     private int at;
     private final List<Integer> rows = new ArrayList<>();
 
-    private FileBoundsTest(String name, OrreryBox box, int width, int height) {
+    private FileBoundsTest(String name, Fresh box, int width, int height) {
         this.name = name + ": ";
         this.box = box;
         this.width = width;
         this.height = height;
+        colours = new int[width * height];
+        for (int i = 0; i < colours.length; i++) {
+            colours[i] = box.pixel(i % width, i / width);
+        }
     }
 
-    private static void check(String name, OrreryBox box, int width, int height) {
+    private static void check(String name, Fresh box, int width, int height) {
         new FileBoundsTest(name, box, width, height).whole();
     }
 
@@ -195,7 +200,7 @@ public final class FileBoundsTest {
     }
 
     private int byteOf(int x, int y) {
-        return x < 0 || y < 0 ? 0 : box.pixel(x / 3, y) >> (16 - 8 * (x % 3)) & 255;
+        return x < 0 || y < 0 ? 0 : colours[y * width + x / 3] >> (16 - 8 * (x % 3)) & 255;
     }
 
     private int less(int filter, int x, int y) {
@@ -244,7 +249,7 @@ public final class FileBoundsTest {
             int width = 8 + i % 41;
             int height = 8 + i / 41;
             if (left.add((height * (3 * width + 1) - 1) % 258)) {
-                OrreryBox box = new OrreryBox(width, height);
+                Fresh box = new Fresh(width, height);
                 Due.drawAll(box);
                 check("black " + width + " by " + height, box, width, height);
             }
@@ -258,7 +263,7 @@ public final class FileBoundsTest {
     private static void plainOnes() {
         int[][] colours = {{255, 255, 255}, {128, 128, 128}, {127, 129, 128}, {1, 2, 3}, {143, 144, 145}, {0, 0, 1}};
         for (int[] c : colours) {
-            OrreryBox box = new OrreryBox(9, 8);
+            Fresh box = new Fresh(9, 8);
             box.background(c[0], c[1], c[2]);
             Due.drawAll(box);
             check("plain " + c[0], box, 9, 8);
@@ -277,7 +282,7 @@ public final class FileBoundsTest {
             int down = downFor(d, width);
             int across = (d - down * (3 * width + 1)) / 3;
             int x = across < 0 ? width - 1 : 0;
-            OrreryBox box = new OrreryBox(width, 48);
+            Fresh box = new Fresh(width, 48);
             Due.load(box, Texts.scene("", Texts.material(200, 100, 150, 255, -1, 0), Texts.square(0, 4096),
                 spot(x, 1, width) + "," + spot(x + across, 1 + down, width), ""));
             Due.drawAll(box);
@@ -314,7 +319,7 @@ public final class FileBoundsTest {
             }
             int width = run % 4 == 0 ? 48 : 8 + chance.nextInt(41);
             int height = run % 4 == 0 ? 48 : 8 + chance.nextInt(41);
-            OrreryBox box = new OrreryBox(width, height);
+            Fresh box = new Fresh(width, height);
             Due.load(box, Texts.scene(Texts.texture(16, run % 3, run / 6 % 2, texels.toString()),
                 Texts.material(255, 255, 255, 255, 0, 1), Texts.square(0, 131072), Texts.node(-1, 0, 0, 0, 174763), ""));
             if (run > 12) {
@@ -339,12 +344,13 @@ public final class FileBoundsTest {
     /** A texel for each pixel, 0 or 128: rows whose sums are as great as can be, with every filter. */
     private static void harshOne(Random chance) {
         StringBuilder texels = new StringBuilder();
-        for (int i = 0; i < 3072; i++) {
+        for (int i = 0; i < 768; i++) {
             texels.append(i == 0 ? "" : ",").append(chance.nextInt(2) * 128);
         }
-        String square = Texts.square(0, 196608).replace("[0,0,65536,0,65536,65536,0,65536]", "[0,0,98304,0,98304,98304,0,98304]");
-        OrreryBox box = new OrreryBox(48, 48);
-        Due.is("load", Due.load(box, Texts.scene(Texts.texture(32, 2, 0, texels.toString()),
+        String square = Texts.square(0, 196608).replace("[0,0,65536,0,65536,65536,0,65536]",
+            "[-98304,-98304,98304,-98304,98304,98304,-98304,98304]");
+        Fresh box = new Fresh(48, 48);
+        Due.is("load", Due.load(box, Texts.scene(Texts.texture(16, 2, 0, texels.toString()),
             Texts.material(255, 255, 255, 255, 0, 1), square, Texts.node(-1, 0, 0, 0, 262144), "")), 1);
         Due.drawAll(box);
         check("harsh", box, 48, 48);

@@ -4,7 +4,7 @@ import java.util.zip.Inflater;
 
 /** Promises 21 and 22: file and byteAt. */
 public final class FileTest {
-    private static byte[] bytesOf(OrreryBox box, int size) {
+    private static byte[] bytesOf(Fresh box, int size) {
         byte[] bytes = new byte[size];
         for (int k = 0; k < size; k++) {
             bytes[k] = (byte) box.byteAt(k);
@@ -14,7 +14,7 @@ public final class FileTest {
 
     /** 200 bytes of 0: the byte itself, then a run of 199, one back; worked out bit by bit. */
     private static void blackOne() {
-        OrreryBox box = new OrreryBox(8, 8);
+        Fresh box = new Fresh(8, 8);
         Due.is("no picture", box.file(), -1);
         box.begin();
         Due.is("no tile", box.file(), -1);
@@ -52,7 +52,7 @@ public final class FileTest {
     }
 
     /** Any reader of such files reads the picture's pixels: what is packed is opened by the library, rows by their filters. */
-    private static void readByOthers(OrreryBox box, int width, int height) throws DataFormatException {
+    private static void readByOthers(Fresh box, int width, int height) throws DataFormatException {
         byte[] rows = rowsOf(bytesOf(box, box.file()));
         Due.is("rows", rows.length, height * (3 * width + 1));
         int[][] picture = new int[height][3 * width];
@@ -99,7 +99,7 @@ public final class FileTest {
             for (int i = 0; i < 768; i++) {
                 texels.append(i == 0 ? "" : ",").append(chance.nextInt(256));
             }
-            OrreryBox box = new OrreryBox(48, 48);
+            Fresh box = new Fresh(48, 48);
             Due.is("load", Due.load(box, Texts.scene(Texts.texture(16, 0, soft, texels.toString()),
                 Texts.material(255, 255, 255, 255, 0, 0), Texts.square(0, 131072), Texts.node(-1, 0, 0, 0, 174763), "")), 1);
             Due.drawAll(box);
@@ -112,12 +112,12 @@ public final class FileTest {
     }
 
     private static void plainOnes() throws DataFormatException {
-        OrreryBox box = new OrreryBox(13, 29);
+        Fresh box = new Fresh(13, 29);
         Due.load(box, Texts.redSquare());
         box.background(12, 34, 56);
         Due.drawAll(box);
         readByOthers(box, 13, 29);
-        box = new OrreryBox(48, 48);
+        box = new Fresh(48, 48);
         box.background(255, 255, 255);
         Due.drawAll(box);
         readByOthers(box, 48, 48);
@@ -125,7 +125,7 @@ public final class FileTest {
 
     /** Of a picture of one colour the first row is least with a, the next ones with b; ties go to the least filter. */
     private static void filters() throws DataFormatException {
-        OrreryBox box = new OrreryBox(8, 8);
+        Fresh box = new Fresh(8, 8);
         box.background(1, 2, 3);
         Due.drawAll(box);
         byte[] rows = rowsOf(bytesOf(box, box.file()));

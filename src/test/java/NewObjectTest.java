@@ -4,7 +4,7 @@ public final class NewObjectTest {
         int[][] sizes = {{8, 8, 1}, {7, 0, 1}, {Integer.MIN_VALUE, -1, 1}, {9, 8, 2}, {8, 17, 3}, {48, 48, 36},
             {49, 48, 36}, {Integer.MAX_VALUE, Integer.MAX_VALUE, 36}, {16, 24, 6}, {47, 41, 36}};
         for (int[] s : sizes) {
-            OrreryBox box = new OrreryBox(s[0], s[1]);
+            Fresh box = new Fresh(s[0], s[1]);
             int width = Math.max(8, Math.min(48, s[0]));
             int height = Math.max(8, Math.min(48, s[1]));
             String name = "OrreryBox(" + s[0] + ", " + s[1] + ") ";
@@ -18,7 +18,7 @@ public final class NewObjectTest {
     }
 
     private static void nothingThere() {
-        OrreryBox box = new OrreryBox(16, 16);
+        Fresh box = new Fresh(16, 16);
         Due.is("NONE", OrreryBox.NONE, -1);
         for (int what = 0; what <= 5; what++) {
             Due.is("count(" + what + ")", box.count(what), 0);
@@ -54,8 +54,8 @@ public final class NewObjectTest {
         String named = scene.substring(0, scene.length() - 1)
             + ",\"camera\":{\"move\":[0,0,0],\"turn\":[0,0,0],\"focus\":32},"
             + "\"light\":{\"toward\":[0,0,-65536],\"ambient\":16384}}";
-        OrreryBox a = new OrreryBox(16, 16);
-        OrreryBox b = new OrreryBox(16, 16);
+        Fresh a = new Fresh(16, 16);
+        Fresh b = new Fresh(16, 16);
         Due.is("load", Due.load(a, scene), 1);
         b.camera(0, 1, 2, 3);
         b.camera(2, 99, 0, 0);
@@ -72,7 +72,7 @@ public final class NewObjectTest {
     }
 
     private static void tape() {
-        OrreryBox box = new OrreryBox(8, 8);
+        Fresh box = new Fresh(8, 8);
         Due.is("feed", box.feed(('{' << 24) + ('}' << 16) + ('x' << 8), 0, 0, 0, 0), true);
         Due.is("end(21)", box.end(21), false);
         Due.is("end(-1)", box.end(-1), false);
@@ -95,7 +95,7 @@ public final class NewObjectTest {
         Due.is("error(1)", box.error(1), 1);
     }
 
-    /** So many calls are more than the document promises anything for, but feed must still know its room. */
+    /** The one test with more calls than the document promises anything for: the tape has no end that fewer could meet. */
     private static void fullTape() {
         OrreryBox box = new OrreryBox(8, 8);
         for (int i = 0; i < 3276; i++) {
@@ -107,7 +107,7 @@ public final class NewObjectTest {
         Due.is("end(65516)", box.end(65516), true);
         Due.is("just room for twenty more", box.feed(0x20202020, 0x20202020, 0x20202020, 0x20202020, 0x20207B7D), true);
         Due.is("it is full", box.feed(1, 2, 3, 4, 5), false);
-        Due.is("load", Due.load(box), 0);
+        Due.is("load", box.load(), 0);
     }
 
     public static void main(String[] args) {

@@ -1,18 +1,18 @@
 /** Promises 19 and 20: pick and picked. */
 public final class PickTest {
-    private static OrreryBox loaded(String materials, String meshes, String nodes) {
-        OrreryBox box = new OrreryBox(16, 16);
+    private static Fresh loaded(String materials, String meshes, String nodes) {
+        Fresh box = new Fresh(16, 16);
         Due.is("load", Due.load(box, Texts.scene("", materials, meshes, nodes, "")) != Due.ILLEGAL_ARGUMENT, true);
         return box;
     }
 
-    private static void met(OrreryBox box, int x, int y, int node, int face) {
+    private static void met(Fresh box, int x, int y, int node, int face) {
         Due.is("pick(" + x + ", " + y + ")", box.pick(x, y), node);
         Due.is("picked() after pick(" + x + ", " + y + ")", box.picked(), face);
     }
 
     private static void faces() {
-        OrreryBox box = loaded(Texts.material(255, 0, 0, 255, -1, 0), Texts.square(0, 32768), Texts.node(-1, 0, 0, 0, 262144));
+        Fresh box = loaded(Texts.material(255, 0, 0, 255, -1, 0), Texts.square(0, 32768), Texts.node(-1, 0, 0, 0, 262144));
         Due.is("there was none", box.picked(), -1);
         met(box, 10, 5, 0, 0);
         met(box, 5, 10, 0, 1);
@@ -41,7 +41,7 @@ public final class PickTest {
 
     /** Of the scene as it is now, whatever a picture shows. */
     private static void now() {
-        OrreryBox box = loaded(Texts.material(255, 0, 0, 255, -1, 0), Texts.square(0, 32768), Texts.node(-1, 0, 0, 0, 262144));
+        Fresh box = loaded(Texts.material(255, 0, 0, 255, -1, 0), Texts.square(0, 32768), Texts.node(-1, 0, 0, 0, 262144));
         Due.drawAll(box);
         box.set(0, 0, 65536, 0, 262144);
         met(box, 5, 8, -1, -1);

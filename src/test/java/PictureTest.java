@@ -2,8 +2,8 @@
 public final class PictureTest {
     private static final String WHITE = Texts.material(255, 255, 255, 255, -1, 0);
 
-    private static OrreryBox drawn(int width, int height, String text) {
-        OrreryBox box = new OrreryBox(width, height);
+    private static Fresh drawn(int width, int height, String text) {
+        Fresh box = new Fresh(width, height);
         Due.is("load of " + text, Due.load(box, text) != Due.ILLEGAL_ARGUMENT, true);
         Due.drawAll(box);
         return box;
@@ -14,7 +14,7 @@ public final class PictureTest {
     }
 
     /** Pixels with that colour, as rows of # and . */
-    private static void looks(String name, OrreryBox box, int colour, String... rows) {
+    private static void looks(String name, Fresh box, int colour, String... rows) {
         for (int y = 0; y < rows.length; y++) {
             for (int x = 0; x < rows[y].length(); x++) {
                 Due.is(name + ": pixel(" + x + ", " + y + ") has it", box.pixel(x, y) == colour, rows[y].charAt(x) == '#');
@@ -23,7 +23,7 @@ public final class PictureTest {
     }
 
     private static void tiles() {
-        OrreryBox box = new OrreryBox(20, 9);
+        Fresh box = new Fresh(20, 9);
         Due.is("load", Due.load(box, Texts.redSquare()), 1);
         Due.is("tile without a picture", box.tile(0), false);
         Due.is("begin", box.begin(), 6);
@@ -58,7 +58,7 @@ public final class PictureTest {
     private static void asItWasThen() {
         String scene = Texts.scene(Texts.texture(1, 0, 0, "255,0,0"), Texts.material(255, 255, 255, 255, 0, 0),
             Texts.square(0, 32768), Texts.node(-1, 0, 0, 0, 262144), Texts.track(0, 0, 0, "0", "0,0,524288"));
-        OrreryBox box = new OrreryBox(16, 16);
+        Fresh box = new Fresh(16, 16);
         Due.is("load", Due.load(box, scene), 1);
         box.begin();
         box.tile(3);
@@ -89,7 +89,7 @@ public final class PictureTest {
 
     /** A square from pixel middle to pixel middle: its left and upper edges cover, its right and lower ones do not. */
     private static void edges() {
-        OrreryBox box = drawn(16, 16, one("", WHITE, Texts.square(0, 28672), 262144));
+        Fresh box = drawn(16, 16, one("", WHITE, Texts.square(0, 28672), 262144));
         String in = "....#######.....";
         String out = "................";
         looks("middles on edges", box, 0xFFFFFF, out, out, out, out, in, in, in, in, in, in, in, out, out, out, out, out);
@@ -103,7 +103,7 @@ public final class PictureTest {
 
     private static void sides() {
         String back = "0,2,1,0,3,2";
-        OrreryBox box = drawn(16, 16, one("", WHITE, Texts.square(0, 65536, 0, back), 262144));
+        Fresh box = drawn(16, 16, one("", WHITE, Texts.square(0, 65536, 0, back), 262144));
         Due.is("from behind", box.pixel(8, 8), 0);
         box = drawn(16, 16, one("", Texts.material(255, 255, 255, 255, -1, 1), Texts.square(0, 65536, 0, back), 262144));
         Due.is("from behind, with both", box.pixel(8, 8), 0xFFFFFF);
@@ -118,12 +118,12 @@ public final class PictureTest {
         String near = Texts.node(-1, 1, 0, 0, 131072);
         String far = Texts.node(-1, 0, 0, 0, 262144);
         for (String nodes : new String[] {near + "," + far, far + "," + near}) {
-            OrreryBox box = drawn(16, 16, Texts.scene("", materials, meshes, nodes, ""));
+            Fresh box = drawn(16, 16, Texts.scene("", materials, meshes, nodes, ""));
             Due.is("the nearer one", box.pixel(8, 8), 0x00FF00);
             Due.is("its nearness", box.nearness(8, 8), 32768);
         }
         // As near as the other one: the first in the order stays.
-        OrreryBox box = drawn(16, 16, Texts.scene("", materials, meshes, far + "," + Texts.node(-1, 1, 0, 0, 262144), ""));
+        Fresh box = drawn(16, 16, Texts.scene("", materials, meshes, far + "," + Texts.node(-1, 1, 0, 0, 262144), ""));
         Due.is("equal ones by number", box.pixel(8, 8), 0xFF0000);
         box = drawn(16, 16, Texts.scene("", materials, meshes, Texts.node(-1, 1, 0, 0, 262144) + "," + far, ""));
         Due.is("equal ones by number", box.pixel(8, 8), 0x00FF00);
@@ -144,7 +144,7 @@ public final class PictureTest {
         String white = Texts.node(-1, 1, 0, 0, 200000);
         String blue = Texts.node(-1, 2, 0, 0, 150000);
         String none = Texts.node(-1, 3, 0, 0, 100000);
-        OrreryBox box = drawn(16, 16, Texts.scene("", materials, meshes, white + "," + red, ""));
+        Fresh box = drawn(16, 16, Texts.scene("", materials, meshes, white + "," + red, ""));
         Due.is("white over red", box.pixel(8, 8), 0xFF7F7F);
         Due.is("the nearness of the solid one", box.nearness(8, 8), 16384);
         box = drawn(16, 16, Texts.scene("", materials, meshes, Texts.node(-1, 1, 0, 0, 270000) + "," + red, ""));
@@ -163,7 +163,7 @@ public final class PictureTest {
 
     /** Far larger than the picture, and partly behind the camera: cut, and drawn wherever it is. */
     private static void cutOnes() {
-        OrreryBox box = drawn(16, 16, one("", WHITE, Texts.square(0, 1048576), 262144));
+        Fresh box = drawn(16, 16, one("", WHITE, Texts.square(0, 1048576), 262144));
         for (int i = 0; i < 256; i++) {
             Due.is("all of it " + i, box.pixel(i % 16, i / 16), 0xFFFFFF);
             Due.is("all as near " + i, box.nearness(i % 16, i / 16), 16384);
@@ -190,7 +190,7 @@ public final class PictureTest {
     private static final String FOUR = "255,0,0,0,255,0,0,0,255,255,255,255";
 
     private static void textures() {
-        OrreryBox box = drawn(16, 16, one(Texts.texture(2, 0, 0, FOUR), Texts.material(255, 255, 255, 255, 0, 0),
+        Fresh box = drawn(16, 16, one(Texts.texture(2, 0, 0, FOUR), Texts.material(255, 255, 255, 255, 0, 0),
             Texts.square(0, 65536), 262144));
         int[] quarter = {0xFF0000, 0x00FF00, 0x0000FF, 0xFFFFFF};
         for (int i = 0; i < 256; i++) {
@@ -229,7 +229,7 @@ public final class PictureTest {
         for (int wrap = 0; wrap < 3; wrap++) {
             String mesh = Texts.square(0, 65536).replace("\"places\":[0,0,65536,0,65536,65536,0,65536]",
                 "\"places\":[-131072,-131072,131072,-131072,131072,131072,-131072,131072]");
-            OrreryBox box = drawn(16, 16, one(Texts.texture(4, wrap, 0, texels.toString()),
+            Fresh box = drawn(16, 16, one(Texts.texture(4, wrap, 0, texels.toString()),
                 Texts.material(255, 255, 255, 255, 0, 0), mesh, 262144));
             for (int x = 0; x < 16; x++) {
                 Due.is("wrap " + wrap + " at " + x, box.pixel(x, 9) >> 16, 10 * due[wrap][x]);
@@ -257,7 +257,7 @@ public final class PictureTest {
     }
 
     private static void greyIs(String name, String texture, int half, int move, int x, int y, int grey) {
-        OrreryBox box = drawn(16, 16, Texts.scene(texture, Texts.material(255, 255, 255, 255, 0, 0),
+        Fresh box = drawn(16, 16, Texts.scene(texture, Texts.material(255, 255, 255, 255, 0, 0),
             Texts.square(0, half), Texts.node(-1, 0, move, move, 262144), ""));
         Due.is(name + " of " + half, box.pixel(x, y), grey);
         Due.is(name + " of " + half + " is drawn", box.nearness(x, y), 16384);
@@ -267,7 +267,7 @@ public final class PictureTest {
     private static void slopes() {
         String slope = "{\"material\":0,\"points\":[-65536,-65536,0,65536,-65536,0,262144,262144,786432,-262144,262144,786432],"
             + "\"normals\":[0,0,-65536,0,0,-65536,0,0,0,0,0,0],\"places\":[0,0,0,0,0,0,0,0],\"faces\":[0,1,2,0,2,3]}";
-        OrreryBox box = new OrreryBox(16, 16);
+        Fresh box = new Fresh(16, 16);
         Due.load(box, Texts.scene("", WHITE, slope, Texts.node(-1, 0, 0, 0, 262144), ""));
         box.light(0, 0, -65536, 0);
         Due.drawAll(box);

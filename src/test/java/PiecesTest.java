@@ -31,13 +31,13 @@ public final class PiecesTest {
         return mesh(material, points, Texts.repeat("0,1,2", faces));
     }
 
-    private static OrreryBox loaded(int redFourth, int greenFourth, String nodes, String... meshes) {
+    private static Fresh loaded(int redFourth, int greenFourth, String nodes, String... meshes) {
         String scene = Texts.scene("", Texts.material(255, 0, 0, redFourth, -1, 1) + ","
             + Texts.material(0, 255, 0, greenFourth, -1, 1), String.join(",", meshes), nodes, "");
         String text = scene.substring(0, scene.length() - 1) + ",\"camera\":{\"move\":[0,0,0],\"turn\":[0,0,0],\"focus\":512},"
             + "\"light\":{\"toward\":[0,0,0],\"ambient\":65536}}";
         Due.is("it can be fed within 512 calls", text.length() < 20 * 400, true);
-        OrreryBox box = new OrreryBox(8, 8);
+        Fresh box = new Fresh(8, 8);
         Due.is("load", Due.load(box, text) != Due.ILLEGAL_ARGUMENT, true);
         box.begin();
         box.tile(0);
@@ -55,13 +55,13 @@ public final class PiecesTest {
         return nodes.toString();
     }
 
-    private static void halvesAre(String name, OrreryBox box, int node, int upperFace, int lowerFace) {
+    private static void halvesAre(String name, Fresh box, int node, int upperFace, int lowerFace) {
         halfIs(name + ", upper half", box, 6, 1, node, upperFace);
         halfIs(name + ", lower half", box, 1, 6, node, lowerFace);
     }
 
     /** The near piece is there and has that face; or it is not, and the face is NONE. */
-    private static void halfIs(String name, OrreryBox box, int x, int y, int node, int face) {
+    private static void halfIs(String name, Fresh box, int x, int y, int node, int face) {
         boolean there = face != OrreryBox.NONE;
         Due.is(name + " is drawn", box.pixel(x, y) == GREEN, there);
         Due.is(name + " has its nearness", box.nearness(x, y) == NEAREST, there);
@@ -75,7 +75,7 @@ public final class PiecesTest {
     private static void theFirstOnes() {
         int[][] due = {{1, 0, 1}, {126, 0, 1}, {127, 0, -1}, {128, -1, -1}};
         for (int[] d : due) {
-            OrreryBox box = loaded(255, 255, nodes(41, 1, 1), many(0, SEVEN, 128), many(0, ONE, d[0]),
+            Fresh box = loaded(255, 255, nodes(41, 1, 1), many(0, SEVEN, 128), many(0, ONE, d[0]),
                 mesh(1, NEAR, "0,1,2,0,2,3"));
             halvesAre(36736 + d[0] + " before", box, 42, d[1], d[2]);
         }
@@ -85,7 +85,7 @@ public final class PiecesTest {
     private static void piecesOfOneFace() {
         int[][] due = {{126, 0, 0}, {127, 0, -1}, {128, -1, -1}};
         for (int[] d : due) {
-            OrreryBox box = loaded(255, 255, nodes(41, 1, 1), many(0, SEVEN, 128), many(0, ONE, d[0]), mesh(1, CUT, "0,1,2"));
+            Fresh box = loaded(255, 255, nodes(41, 1, 1), many(0, SEVEN, 128), many(0, ONE, d[0]), mesh(1, CUT, "0,1,2"));
             halvesAre("one face, " + (36736 + d[0]) + " before", box, 42, d[1], d[2]);
         }
     }
@@ -93,8 +93,8 @@ public final class PiecesTest {
     /** What is nothing is as if it were not: every pixel is the same without it. */
     private static void furtherOnesAreNothing() {
         String[] meshes = {many(0, SEVEN, 128), many(0, ONE, 127), mesh(1, NEAR, "0,1,2,0,2,3"), mesh(1, NEAR, "0,1,2")};
-        OrreryBox both = loaded(255, 255, nodes(41, 1, 1), meshes);
-        OrreryBox one = loaded(255, 255, nodes(41, 1, 0, 1), meshes);
+        Fresh both = loaded(255, 255, nodes(41, 1, 1), meshes);
+        Fresh one = loaded(255, 255, nodes(41, 1, 0, 1), meshes);
         for (int i = 0; i < 64; i++) {
             int x = i % 8;
             int y = i / 8;
@@ -107,7 +107,7 @@ public final class PiecesTest {
 
     /** Pieces that are nothing, and those of nodes that are not seen, are not counted. */
     private static void whatIsNotCounted() {
-        OrreryBox box = loaded(255, 255, nodes(41, 1, 1, 1), many(0, SEVEN, 128), many(0, FLAT, 128), many(0, ONE, 126),
+        Fresh box = loaded(255, 255, nodes(41, 1, 1, 1), many(0, SEVEN, 128), many(0, FLAT, 128), many(0, ONE, 126),
             mesh(1, NEAR, "0,1,2,0,2,3"));
         halvesAre("flat ones before", box, 43, 0, 1);
         box = loaded(255, 255, nodes(46, 1), many(0, SEVEN, 128), mesh(1, NEAR, "0,1,2,0,2,3"));
@@ -131,13 +131,13 @@ public final class PiecesTest {
     /** However many are nothing one behind the other: here each face is cut to a line of seven corners or so. */
     private static void manyNothings() {
         String line = "-300,-300,4000,300,300,4300,300,300,4300";
-        OrreryBox box = loaded(255, 255, nodes(47, 1), many(0, line, 128), mesh(1, NEAR, "0,1,2,0,2,3"));
+        Fresh box = loaded(255, 255, nodes(47, 1), many(0, line, 128), mesh(1, NEAR, "0,1,2,0,2,3"));
         halvesAre("6,016 faces that are nothing", box, 47, 0, 1);
     }
 
     /** Solid ones come first, whatever their numbers; clear ones are counted behind them. */
     private static void solidOnesFirst() {
-        OrreryBox box = loaded(100, 255, nodes(46, 1), many(0, SEVEN, 128), mesh(1, NEAR, "0,1,2,0,2,3"));
+        Fresh box = loaded(100, 255, nodes(46, 1), many(0, SEVEN, 128), mesh(1, NEAR, "0,1,2,0,2,3"));
         halvesAre("solid behind 46 clear ones", box, 46, 0, 1);
         int[][] due = {{126, 42, 42}, {127, 42, -1}, {128, -1, -1}};
         for (int[] d : due) {
@@ -149,7 +149,7 @@ public final class PiecesTest {
 
     /** 43 nodes with 128 faces of nine corners, but of six pieces that count: there is room for all of them. */
     private static void nineCorners() {
-        OrreryBox box = loaded(255, 255, nodes(43, 1), many(0, SIX, 128), mesh(1, NEAR, "0,1,2,0,2,3"));
+        Fresh box = loaded(255, 255, nodes(43, 1), many(0, SIX, 128), mesh(1, NEAR, "0,1,2,0,2,3"));
         halvesAre("33,024 before", box, 43, 0, 1);
         box = loaded(255, 255, nodes(47, 1), many(0, SIX, 128), mesh(1, NEAR, "0,1,2,0,2,3"));
         halvesAre("36,096 before", box, 47, 0, 1);

@@ -8,8 +8,8 @@ public final class PromisesTest {
     private static final int TURN = 1048576;
 
     /** Three nodes, one below the other, with a track; a picture half drawn, a file, a pick, half a text on the tape. */
-    private static OrreryBox used() {
-        OrreryBox box = new OrreryBox(16, 8);
+    private static Fresh used() {
+        Fresh box = new Fresh(16, 8);
         String nodes = Texts.node(-1, 0, 0, 0, 262144) + "," + Texts.node(0, 0, 30000, 10000, -60000) + ","
             + Texts.node(1, -1, 5, 6, 7);
         Due.load(box, Texts.scene("", Texts.material(250, 120, 60, 255, -1, 0), Texts.square(0, 32768), nodes,
@@ -26,7 +26,7 @@ public final class PromisesTest {
     }
 
     /** What all calls answer, put down in a row; the tape's text is ended and loaded at last. */
-    private static String told(OrreryBox box) {
+    private static String told(Fresh box) {
         StringBuilder told = new StringBuilder();
         for (int what = 0; what < 6; what++) {
             told.append(box.count(what)).append(' ').append(box.error(what)).append(' ');
@@ -54,8 +54,8 @@ public final class PromisesTest {
 
     private static final String DUE = told(used());
 
-    private static void refused(String name, long due, ToLongFunction<OrreryBox> call) {
-        OrreryBox box = used();
+    private static void refused(String name, long due, ToLongFunction<Fresh> call) {
+        Fresh box = used();
         Due.is(name, call.applyAsLong(box), due);
         Due.is("nothing has changed after " + name, told(box).equals(DUE), true);
     }
@@ -70,7 +70,7 @@ public final class PromisesTest {
             refused("end(" + n + ")", 0, b -> bit(b.end(n)));
         }
         refused("end(9), as it is", 1, b -> bit(b.end(9)));
-        OrreryBox box = new OrreryBox(8, 8);
+        Fresh box = new Fresh(8, 8);
         Due.is("end(0) of an empty tape", box.end(0), true);
         Due.is("end(1) of an empty tape", box.end(1), false);
         Due.is("feed", box.feed(0x7B787878, 0x78787878, 0x78787878, 0x78787878, 0x78787878), true);
@@ -87,7 +87,7 @@ public final class PromisesTest {
 
     /** "The tape's bytes (it is empty then, in any case)"; "IllegalArgumentException if they are wrong (the scene stays)". */
     private static void load() {
-        OrreryBox box = used();
+        Fresh box = used();
         String before = scene(box);
         Due.is("a wrong text", Due.load(box), Due.ILLEGAL_ARGUMENT);
         Due.is("the scene stays", scene(box).equals(before), true);
@@ -121,7 +121,7 @@ public final class PromisesTest {
         String named = text.substring(0, text.length() - 1)
             + ",\"camera\":{\"move\":[4,5,6],\"turn\":[7,8,9],\"focus\":77},\"light\":{\"toward\":[0,0,65536],\"ambient\":7}}";
         for (int way = 0; way < 2; way++) {
-            OrreryBox box = new OrreryBox(16, 16);
+            Fresh box = new Fresh(16, 16);
             Due.is("load", Due.load(box, way == 0 ? named : text), 1);
             if (way == 1) {
                 box.camera(0, 70000, 0, 0);
@@ -138,7 +138,7 @@ public final class PromisesTest {
             }
         }
         // 16384 of ambient is a quarter where the light does not reach: a normal the other way.
-        OrreryBox box = new OrreryBox(16, 16);
+        Fresh box = new Fresh(16, 16);
         box.light(0, 0, 0, 65536);
         Due.load(box, text.replace("0,0,-65536", "0,0,65536"));
         Due.drawAll(box);
@@ -151,7 +151,7 @@ public final class PromisesTest {
             {0, 65536, -49151, 254}, {0, -65536, -49151, 254}, {65536, 65536, -49152, 255}, {-65536, -65536, -49152, 255}};
         for (int[] d : due) {
             for (int loads = 1; loads < 5; loads += 3) {
-                OrreryBox box = new OrreryBox(16, 16);
+                Fresh box = new Fresh(16, 16);
                 String normal = d[0] + "," + d[1] + "," + d[2];
                 for (int i = 0; i < loads; i++) {
                     Due.is("load", Due.load(box, Texts.redSquare().replace("0,0,-65536", normal)), 1);
@@ -172,8 +172,8 @@ public final class PromisesTest {
             "{\"parent\":-1,\"mesh\":0,\"move\":[1,2,262143],\"turn\":[3,50,7],\"size\":[70000,80000,90000]}", "");
         String named = square.substring(0, square.length() - 1) + ",\"camera\":{\"move\":[20000,3000,-40000],"
             + "\"turn\":[60,-50,400],\"focus\":41},\"light\":{\"toward\":[-9000,7000,-20000],\"ambient\":11}}";
-        OrreryBox told = new OrreryBox(16, 16);
-        OrreryBox called = new OrreryBox(16, 16);
+        Fresh told = new Fresh(16, 16);
+        Fresh called = new Fresh(16, 16);
         Due.is("load", Due.load(told, named), 1);
         Due.is("load", Due.load(called, square.replace("1,2,262143", "0,0,0").replace("3,50,7", "0,0,0")
             .replace("70000,80000,90000", "0,0,0")), 1);
@@ -200,19 +200,19 @@ public final class PromisesTest {
 
     /** Scene after scene in the same object: nothing of an earlier one is left in a later one. */
     private static void sceneAfterScene() {
-        String full = Texts.scene(Texts.repeat(Texts.texture(8, 1, 1, Texts.repeat("200", 192)), 8),
-            Texts.repeat(Texts.material(9, 9, 9, 9, 7, 1), 16), Texts.square(15, 65536), Texts.repeat(Texts.node(-1, 0, 9, 9, 9), 20),
-            Texts.repeat(Texts.track(3, 1, 1, "1,2", "1,2,3,4,5,6"), 9));
+        String full = Texts.scene(Texts.repeat(Texts.texture(4, 1, 1, Texts.repeat("9", 48)), 3),
+            Texts.repeat(Texts.material(9, 9, 9, 9, 2, 1), 6), Texts.square(5, 65536), Texts.repeat(Texts.node(-1, 0, 9, 9, 9), 6),
+            Texts.repeat(Texts.track(3, 1, 1, "1,2", "1,2,3,4,5,6"), 4));
         String named = full.substring(0, full.length() - 1)
             + ",\"camera\":{\"move\":[40000,50000,60000],\"turn\":[700,800,900],\"focus\":77},"
             + "\"light\":{\"toward\":[1,2,65536],\"ambient\":7}}";
         String small = Texts.scene(Texts.texture(2, 0, 0, "255,0,0,0,255,0,0,0,255,99,98,97"),
             Texts.material(255, 255, 255, 255, 0, 0), Texts.square(0, 8000), Texts.node(-1, 0, 0, 0, 262144), "");
         for (int loads = 0; loads <= 4; loads++) {
-            OrreryBox box = new OrreryBox(16, 16);
-            OrreryBox fresh = new OrreryBox(16, 16);
+            Fresh box = new Fresh(16, 16);
+            Fresh fresh = new Fresh(16, 16);
             for (int i = 0; i < loads; i++) {
-                Due.is("load", Due.load(box, named), 20);
+                Due.is("load", Due.load(box, named), 6);
                 box.time(44);
                 box.hide(0, true);
                 if (i == 1) {
@@ -240,7 +240,7 @@ public final class PromisesTest {
         }
     }
 
-    private static String scene(OrreryBox box) {
+    private static String scene(Fresh box) {
         StringBuilder told = new StringBuilder();
         for (int what = 0; what < 6; what++) {
             told.append(box.count(what)).append(' ');
@@ -263,7 +263,7 @@ public final class PromisesTest {
             refused("time(" + t + ")", 0, b -> bit(b.time(t)));
         }
         for (int t : new int[] {0, 1000000}) {
-            OrreryBox box = used();
+            Fresh box = used();
             Due.is("time(" + t + ")", box.time(t), true);
             Due.is("count(5)", box.count(5), t);
             Due.is("it is set", box.world(0, 0, 3), t == 0 ? 0 : 100);
@@ -295,7 +295,7 @@ public final class PromisesTest {
                 refused("set(1, " + w + ", z " + v, 0, b -> bit(b.set(1, w, 0, 0, v)));
             }
             for (int v : new int[] {most, -most}) {
-                OrreryBox box = used();
+                Fresh box = used();
                 box.hang(1, -1);
                 Due.is("set(1, " + w + ", " + v, box.set(1, w, v, -v, v), true);
                 Due.is("it is", box.world(1, w == 0 ? 0 : w == 1 ? 1 : 0, w == 0 ? 3 : w == 1 ? 1 : 0), w == 1 ? 65536 : v);
@@ -321,7 +321,7 @@ public final class PromisesTest {
             refused("camera(2, " + x + ", ..)", 0, b -> bit(b.camera(2, x, 8, 8)));
         }
         for (int x : new int[] {8, 512}) {
-            OrreryBox box = used();
+            Fresh box = used();
             box.hide(1, true);
             Due.is("camera(2, " + x + ")", box.camera(2, x, MIN, MAX), true);
             // Node 0 reaches 32768 / 262144 of the focus to the left: one pixel with 8, 64 with 512.
@@ -346,7 +346,7 @@ public final class PromisesTest {
         refused("ambient -1", 0, b -> bit(b.light(0, 0, 0, -1)));
         int[][] fit = {{65536, -65536, 65536, 0}, {-65536, 65536, -65536, 65536}};
         for (int[] l : fit) {
-            OrreryBox box = used();
+            Fresh box = used();
             Due.is("light", box.light(l[0], l[1], l[2], l[3]), true);
             box.hide(1, true);
             Due.drawAll(box);
@@ -358,7 +358,7 @@ public final class PromisesTest {
             refused("blue " + v, 0, b -> bit(b.background(9, 9, v)));
         }
         for (int v : new int[] {0, 255}) {
-            OrreryBox box = used();
+            Fresh box = used();
             Due.is("background", box.background(v, 255 - v, v), true);
             Due.drawAll(box);
             Due.is("it is there", box.pixel(0, 0), v * 65536 + (255 - v) * 256 + v);
@@ -370,7 +370,7 @@ public final class PromisesTest {
         for (int[] p : outside) {
             refused("pixel(" + p[0] + ", " + p[1] + ")", -1, b -> b.pixel(p[0], p[1]));
             refused("nearness(" + p[0] + ", " + p[1] + ")", -1, b -> b.nearness(p[0], p[1]));
-            OrreryBox box = used();
+            Fresh box = used();
             Due.is("picked", box.picked() >= 0, true);
             Due.is("pick(" + p[0] + ", " + p[1] + ")", box.pick(p[0], p[1]), -1);
             Due.is("picked after one outside", box.picked(), -1);
@@ -389,7 +389,7 @@ public final class PromisesTest {
 
     /** What is outside is NONE, though a piece may reach far beyond the picture and all tiles are done. */
     private static void outside() {
-        OrreryBox box = new OrreryBox(16, 16);
+        Fresh box = new Fresh(16, 16);
         Due.load(box, Texts.scene("", Texts.material(255, 0, 0, 255, -1, 1), Texts.square(0, 1048576),
             Texts.node(-1, 0, 0, 0, 262144), ""));
         Due.drawAll(box);
@@ -413,7 +413,7 @@ public final class PromisesTest {
     /** "NONE if not all its tiles are done": whichever is missing. */
     private static void everyTileMissing() {
         for (int missing = 0; missing < 9; missing++) {
-            OrreryBox box = new OrreryBox(24, 17);
+            Fresh box = new Fresh(24, 17);
             int tiles = box.begin();
             for (int k = tiles - 1; k >= 0; k--) {
                 Due.is("tile", k == missing || box.tile(k), true);
@@ -430,7 +430,7 @@ public final class PromisesTest {
 
     /** "A picture of the scene begins, in place of another one, no tile of it done (also of a scene without nodes)". */
     private static void beginAgain() {
-        OrreryBox box = used();
+        Fresh box = used();
         Due.is("begin", box.begin(), 2);
         Due.is("not done", box.pixel(8, 4), -1);
         Due.is("not done", box.nearness(8, 4), -1);

@@ -2,21 +2,21 @@
 public final class SceneTest {
     private static final int MOST = 1048576;
 
-    private static OrreryBox twoNodes() {
-        OrreryBox box = new OrreryBox(16, 16);
+    private static Fresh twoNodes() {
+        Fresh box = new Fresh(16, 16);
         Due.is("load", Due.load(box, Texts.scene("", "", "", Texts.node(-1, -1, 1000, 2000, 3000) + ","
             + Texts.node(0, -1, 10, 20, 30), "")), 2);
         return box;
     }
 
-    private static void worldIs(OrreryBox box, int node, long... due) {
+    private static void worldIs(Fresh box, int node, long... due) {
         for (int k = 0; k < 12; k++) {
             Due.is("world(" + node + ", " + k / 4 + ", " + k % 4 + ")", box.world(node, k / 4, k % 4), due[k]);
         }
     }
 
     private static void world() {
-        OrreryBox box = twoNodes();
+        Fresh box = twoNodes();
         worldIs(box, 0, 65536, 0, 0, 1000, 0, 65536, 0, 2000, 0, 0, 65536, 3000);
         worldIs(box, 1, 65536, 0, 0, 1010, 0, 65536, 0, 2020, 0, 0, 65536, 3030);
         int[][] none = {{-1, 0, 0}, {2, 0, 0}, {0, -1, 0}, {0, 3, 0}, {0, 0, -1}, {0, 0, 4},
@@ -55,7 +55,7 @@ public final class SceneTest {
     }
 
     private static void bounds() {
-        OrreryBox box = new OrreryBox(16, 16);
+        Fresh box = new Fresh(16, 16);
         Due.load(box, Texts.scene("", "", "", Texts.nodes(4), ""));
         for (int i = 0; i < 4; i++) {
             box.set(i, 2, MOST, -MOST, 65536);
@@ -68,7 +68,7 @@ public final class SceneTest {
     }
 
     private static void set() {
-        OrreryBox box = twoNodes();
+        Fresh box = twoNodes();
         int[] most = {4194304, MOST, MOST};
         for (int what = 0; what < 3; what++) {
             int m = most[what];
@@ -89,7 +89,7 @@ public final class SceneTest {
     }
 
     private static void hang() {
-        OrreryBox box = new OrreryBox(16, 16);
+        Fresh box = new Fresh(16, 16);
         Due.load(box, Texts.scene("", "", "", Texts.node(-1, -1, 1, 0, 0) + "," + Texts.node(-1, -1, 10, 0, 0) + ","
             + Texts.node(1, -1, 100, 0, 0), ""));
         Due.is("as it is", box.world(2, 0, 3), 110);
@@ -113,7 +113,7 @@ public final class SceneTest {
     }
 
     private static void time() {
-        OrreryBox box = new OrreryBox(16, 16);
+        Fresh box = new Fresh(16, 16);
         String tracks = Texts.track(0, 0, 0, "10,20", "1,2,3,101,102,103") + ","
             + Texts.track(1, 0, 1, "10,13", "100,-100,0,200,-200,1") + ","
             + Texts.track(2, 0, 2, "100,200", "0,0,65536,65536,-65536,0") + ","
@@ -173,7 +173,7 @@ public final class SceneTest {
             times.append(i == 0 ? "" : ",").append(10 * i);
             values.append(i == 0 ? "" : ",").append(i).append(",").append(-i).append(",").append(100 * i);
         }
-        OrreryBox box = new OrreryBox(8, 8);
+        Fresh box = new Fresh(8, 8);
         Due.is("load", Due.load(box, Texts.scene("", "", "", Texts.node(-1, -1, 0, 0, 0), Texts.repeat(Texts.track(0, 0, 1,
             times.toString(), values.toString()), 2))), 1);
         for (int t = 0; t < 330; t += 5) {
@@ -184,20 +184,20 @@ public final class SceneTest {
         }
     }
 
-    private static void moveIs(OrreryBox box, int node, int x, int y, int z) {
+    private static void moveIs(Fresh box, int node, int x, int y, int z) {
         Due.is("x of " + node + " at " + box.count(5), box.world(node, 0, 3), x);
         Due.is("y of " + node + " at " + box.count(5), box.world(node, 1, 3), y);
         Due.is("z of " + node + " at " + box.count(5), box.world(node, 2, 3), z);
     }
 
-    private static OrreryBox redSquare() {
-        OrreryBox box = new OrreryBox(16, 16);
+    private static Fresh redSquare() {
+        Fresh box = new Fresh(16, 16);
         Due.is("load", Due.load(box, Texts.redSquare()), 1);
         return box;
     }
 
     private static void hide() {
-        OrreryBox box = new OrreryBox(16, 16);
+        Fresh box = new Fresh(16, 16);
         Due.load(box, Texts.scene("", Texts.material(255, 0, 0, 255, -1, 0), Texts.square(0, 65536),
             Texts.node(-1, -1, 0, 0, 262144) + "," + Texts.node(0, -1, 0, 0, 0) + "," + Texts.node(1, 0, 0, 0, 0), ""));
         Due.is("seen", box.pick(8, 7), 2);
@@ -220,7 +220,7 @@ public final class SceneTest {
     }
 
     private static void camera() {
-        OrreryBox box = redSquare();
+        Fresh box = redSquare();
         Due.is("move", box.camera(0, 0, 0, 131072), true);
         Due.drawAll(box);
         Due.is("nearer", box.nearness(8, 7), 32768);
@@ -260,7 +260,7 @@ public final class SceneTest {
     }
 
     private static int lit(int x, int y, int z, int ambient) {
-        OrreryBox box = redSquare();
+        Fresh box = redSquare();
         Due.is("light", box.light(x, y, z, ambient), true);
         Due.drawAll(box);
         return box.pixel(8, 8) >> 16;
@@ -274,7 +274,7 @@ public final class SceneTest {
         Due.is("from behind", lit(0, 0, 65536, 16384), 63);
         Due.is("from aside", lit(65536, 65536, 0, 32768), 127);
         Due.is("none", lit(0, 0, 65536, 0), 0);
-        OrreryBox box = redSquare();
+        Fresh box = redSquare();
         box.light(0, 0, -32768, 0);
         box.set(0, 2, 65536, 65536, 131072);
         Due.drawAll(box);
@@ -289,7 +289,7 @@ public final class SceneTest {
     }
 
     private static void background() {
-        OrreryBox box = new OrreryBox(8, 8);
+        Fresh box = new Fresh(8, 8);
         Due.is("background", box.background(1, 2, 3), true);
         Due.is("background", box.background(256, 0, 0), false);
         Due.is("background", box.background(0, 256, 0), false);

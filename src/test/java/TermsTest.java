@@ -3,14 +3,14 @@ public final class TermsTest {
     private static final int FAR = 16777216;
     private static final int MOST = 1048576;
 
-    private static OrreryBox loaded(int width, int height, String text) {
-        OrreryBox box = new OrreryBox(width, height);
+    private static Fresh loaded(int width, int height, String text) {
+        Fresh box = new Fresh(width, height);
         Due.is("load of " + text, Due.load(box, text) != Due.ILLEGAL_ARGUMENT, true);
         return box;
     }
 
-    private static OrreryBox drawn(int width, int height, String text) {
-        OrreryBox box = loaded(width, height, text);
+    private static Fresh drawn(int width, int height, String text) {
+        Fresh box = loaded(width, height, text);
         Due.drawAll(box);
         return box;
     }
@@ -40,7 +40,7 @@ public final class TermsTest {
             {2048, 0}, {2049, -102}, {3071, -65535}, {3072, -65536}, {3073, -65535}, {4095, -102}, {4096, 0}, {4097, 102},
             {-1, -102}, {-1024, -65536}, {-2047, -102}, {-2048, 0}, {-2049, 102}, {-3072, 65536}, {-4095, 102}, {-4096, 0},
             {-4097, -102}, {MOST, 0}, {-MOST, 0}, {MOST - 1, -102}, {1 - MOST, 102}, {MOST - 1024, -65536}};
-        OrreryBox box = loaded(8, 8, Texts.scene("", "", "", Texts.nodes(1), ""));
+        Fresh box = loaded(8, 8, Texts.scene("", "", "", Texts.nodes(1), ""));
         for (int[] d : due) {
             box.set(0, 1, d[0], 0, 0);
             Due.is("SIN(" + d[0] + ") about x", box.world(0, 2, 1), d[1]);
@@ -60,7 +60,7 @@ public final class TermsTest {
 
     /** The same for a whole turn, by the document's own words. */
     private static void everySine() {
-        OrreryBox box = null;
+        Fresh box = null;
         for (int k = 0; k < 4096; k++) {
             if (k % 200 == 0) {
                 box = loaded(8, 8, Texts.scene("", "", "", Texts.nodes(1), ""));
@@ -75,7 +75,7 @@ public final class TermsTest {
 
     /** "DIV(a, b): the greatest whole number that is not above a / b": also of one below 0. */
     private static void downwards() {
-        OrreryBox box = loaded(8, 8, Texts.scene("", "", "", Texts.nodes(1), ""));
+        Fresh box = loaded(8, 8, Texts.scene("", "", "", Texts.nodes(1), ""));
         // SIN(1) is 102: 102 * 642 = 65484 is below 65536, 102 * 643 = 65586 is not.
         int[][] small = {{642, 0, -1}, {643, 1, -2}, {-642, -1, 0}, {-643, -2, 1}, {1, 0, -1}, {-1, -1, 0}, {0, 0, 0}};
         box.set(0, 1, 0, 0, 1);
@@ -88,7 +88,7 @@ public final class TermsTest {
 
     /** "BOUND(v) is the nearest of -16777216 .. 16777216", of a matrix: just there, and beyond. */
     private static void boundOfMatrices() {
-        OrreryBox box = loaded(8, 8, Texts.scene("", "", "", Texts.nodes(5), ""));
+        Fresh box = loaded(8, 8, Texts.scene("", "", "", Texts.nodes(5), ""));
         for (int i = 0; i < 5; i++) {
             box.set(i, 0, 4194304, -4194304, 4194303);
         }
@@ -119,7 +119,7 @@ public final class TermsTest {
             + node(0, -1, "0,0," + far, "0,0,0", MOST + "," + MOST + ",65536") + "," + Texts.node(1, -1, 0, 0, 4194304) + ","
             + Texts.node(2, 0, 0, 0, 4194304);
         String text = white("", mesh("0,0,0,1048576,0,0,1048576,1048576,0,0,1048576,0", "0,0,-65536", "0,1,2,0,2,3"), nodes);
-        OrreryBox box = loaded(48, 48, text);
+        Fresh box = loaded(48, 48, text);
         box.camera(2, 8, 0, 0);
         Due.drawAll(box);
         // x and z are 16777216: 8 pixels from the middle; r is 4294967296 / 16777216.
@@ -146,7 +146,7 @@ public final class TermsTest {
         String nodes = node(-1, -1, "0,0,262144", "0,0,0", sixteen) + "," + node(0, -1, "0,0,0", "0,0,0", sixteen) + ","
             + node(1, 0, "0,0,0", "512,0,0", "65536," + MOST + "," + MOST);
         String points = "-200,-100,100,200,-100,100,200,100,-100,-200,100,-100";
-        OrreryBox box = loaded(16, 16, white("", mesh(points, "0,65536,65536", "0,1,2,0,2,3"), nodes));
+        Fresh box = loaded(16, 16, white("", mesh(points, "0,65536,65536", "0,1,2,0,2,3"), nodes));
         Due.is("world(2, 1, 2)", box.world(2, 1, 2), -FAR);
         Due.is("world(2, 2, 1)", box.world(2, 2, 1), FAR);
         box.light(0, 0, 128, 0);
@@ -165,7 +165,7 @@ public final class TermsTest {
         String keys = "100,-100,0,200,-200,1";
         String tracks = Texts.track(0, 0, 0, "10,13", keys) + "," + Texts.track(1, 0, 1, "10,13", keys) + ","
             + Texts.track(2, 0, 2, "10,13", keys) + "," + Texts.track(3, 0, 2, "10", "5,6,7");
-        OrreryBox box = loaded(8, 8, Texts.scene("", "", "", Texts.repeat(Texts.node(-1, -1, 1, 1, 1), 4), tracks));
+        Fresh box = loaded(8, 8, Texts.scene("", "", "", Texts.repeat(Texts.node(-1, -1, 1, 1, 1), 4), tracks));
         // Smooth: f 21845, g MUL(7281, 152918) = 16989 and f 43690, g MUL(29126, 109228) = 48543.
         int[][] due = {{0, 100, -100, 0, 100, -100, 0, 100, -100, 0}, {9, 100, -100, 0, 100, -100, 0, 100, -100, 0},
             {10, 100, -100, 0, 100, -100, 0, 100, -100, 0}, {11, 100, -100, 0, 133, -134, 0, 125, -126, 0},
@@ -188,7 +188,7 @@ public final class TermsTest {
         String move = "-4194304,4194304,-4194304,4194304,-4194304,4194304";
         String tracks = Texts.track(0, 0, 1, "0,1000000", move) + "," + Texts.track(1, 0, 2, "0,1000000", move) + ","
             + Texts.track(2, 2, 1, "999999,1000000", "1048576,-1048576,0,-1048576,1048576,0");
-        OrreryBox box = loaded(8, 8, Texts.scene("", "", "", Texts.repeat(Texts.node(-1, -1, 1, 1, 1), 3), tracks));
+        Fresh box = loaded(8, 8, Texts.scene("", "", "", Texts.repeat(Texts.node(-1, -1, 1, 1, 1), 3), tracks));
         box.time(999999);
         // 8388608 * 999999 / 1000000 = 8388599.6
         Due.is("straight", box.world(0, 0, 3), -4194304 + 8388599);
@@ -210,7 +210,7 @@ public final class TermsTest {
     private static void tracksInOrder() {
         String tracks = Texts.track(0, 0, 0, "0", "1,1,1") + "," + Texts.track(0, 0, 0, "5", "2,2,2") + ","
             + Texts.track(0, 2, 0, "0", "7,7,7");
-        OrreryBox box = loaded(8, 8, Texts.scene("", "", "", Texts.node(-1, -1, 9, 9, 9), tracks));
+        Fresh box = loaded(8, 8, Texts.scene("", "", "", Texts.node(-1, -1, 9, 9, 9), tracks));
         Due.is("none has set anything", box.world(0, 0, 3), 9);
         box.time(0);
         Due.is("the later track", box.world(0, 0, 3), 2);
@@ -232,7 +232,7 @@ public final class TermsTest {
             {-32768, 32767, 254}, {0, 0, 0}, {0, 257, 0}, {0, 258, 1}, {1, 32768, 127}, {65536, 65536, 255}, {65536, 32768, 127},
             {-1, 0, 0}, {-257, 0, 0}, {-258, 0, 1}, {65536, 0, 0}};
         for (int[] d : due) {
-            OrreryBox box = loaded(8, 8, Texts.redSquare());
+            Fresh box = loaded(8, 8, Texts.redSquare());
             Due.is("light", box.light(0, 0, d[0], d[1]), true);
             Due.drawAll(box);
             Due.is("toward " + d[0] + ", ambient " + d[1], box.pixel(4, 4), d[2] * 65536);
@@ -242,14 +242,14 @@ public final class TermsTest {
     /** "one with a number not below 0 stays": z 4096 is just far enough, and what is nearer is cut off there. */
     private static void nearSide() {
         for (int z = 4094; z <= 4098; z++) {
-            OrreryBox box = drawn(8, 8, white("", Texts.square(0, 65536), Texts.node(-1, 0, 0, 0, z)));
+            Fresh box = drawn(8, 8, white("", Texts.square(0, 65536), Texts.node(-1, 0, 0, 0, z)));
             int near = z < 4096 ? 0 : z == 4096 ? 1048576 : (int) (4294967296L / z);
             Due.is("nearness at z " + z, box.nearness(4, 4), near);
             Due.is("pick at z " + z, box.pick(4, 4), near == 0 ? -1 : 0);
         }
         // From z 0 to z 8192, x going with z: what is left begins in the middle of the picture, at 4096.
         String slope = mesh("-8192,-1024,8192,0,-1024,0,0,1024,0,-8192,1024,8192", "0,0,-65536", "0,1,2,0,2,3");
-        OrreryBox box = loaded(16, 16, white("", slope, Texts.node(-1, 0, 4096, 0, 0)));
+        Fresh box = loaded(16, 16, white("", slope, Texts.node(-1, 0, 4096, 0, 0)));
         box.camera(2, 16, 0, 0);
         Due.is("left of the middle", box.pick(7, 7), 0);
         Due.is("right of it", box.pick(8, 7), -1);
@@ -259,7 +259,7 @@ public final class TermsTest {
     private static void beyondSides() {
         int[][] away = {{-262144, 0, 262144}, {262144, 0, 262144}, {0, -262144, 262144}, {0, 262144, 262144}, {0, 0, -262144}};
         for (int[] a : away) {
-            OrreryBox box = drawn(16, 16, white("", Texts.square(0, 65536), Texts.node(-1, 0, a[0], a[1], a[2])));
+            Fresh box = drawn(16, 16, white("", Texts.square(0, 65536), Texts.node(-1, 0, a[0], a[1], a[2])));
             for (int i = 0; i < 256; i += 5) {
                 Due.is("beyond", box.pixel(i % 16, i / 16), 0);
                 Due.is("beyond", box.nearness(i % 16, i / 16), 0);
@@ -269,7 +269,7 @@ public final class TermsTest {
         int[][] just = {{-124928, 0, 0, 8}, {126976, 0, 15, 8}, {0, -124928, 8, 0}, {0, 126976, 8, 15},
             {-126976, 0, -1, 8}, {0, -126976, 8, -1}};
         for (int[] j : just) {
-            OrreryBox box = loaded(16, 16, white("", Texts.square(0, 65536), Texts.node(-1, 0, j[0], j[1], 262144)));
+            Fresh box = loaded(16, 16, white("", Texts.square(0, 65536), Texts.node(-1, 0, j[0], j[1], 262144)));
             for (int i = 0; i < 16; i++) {
                 boolean across = j[0] != 0;
                 Due.is("an edge", box.pick(across ? i : 8, across ? 8 : i), i == (across ? j[2] : j[3]) ? 0 : -1);
@@ -284,8 +284,8 @@ public final class TermsTest {
         String upper = "12288,12288,0,-36864,12288,0,12288,-36864,0";
         String[] orders = {"0,1,2", "1,2,0", "2,0,1"};
         for (String order : orders) {
-            OrreryBox box = drawn(16, 16, white("", mesh(lower, "0,0,-65536", order), Texts.node(-1, 0, 0, 0, 262144)));
-            OrreryBox other = drawn(16, 16, white("", mesh(upper, "0,0,-65536", order), Texts.node(-1, 0, 0, 0, 262144)));
+            Fresh box = drawn(16, 16, white("", mesh(lower, "0,0,-65536", order), Texts.node(-1, 0, 0, 0, 262144)));
+            Fresh other = drawn(16, 16, white("", mesh(upper, "0,0,-65536", order), Texts.node(-1, 0, 0, 0, 262144)));
             for (int i = 0; i < 256; i++) {
                 int x = i % 16;
                 int y = i / 16;
@@ -311,7 +311,7 @@ public final class TermsTest {
     }
 
     private static void facesAre(int both, String points, String faces, int node) {
-        OrreryBox box = drawn(16, 16, Texts.scene("", Texts.material(255, 255, 255, 255, -1, both),
+        Fresh box = drawn(16, 16, Texts.scene("", Texts.material(255, 255, 255, 255, -1, both),
             mesh(points, "0,0,-65536", faces), Texts.node(-1, 0, 0, 0, 262144), ""));
         Due.is("faces " + faces + " with both " + both, box.pick(10, 5), node);
         Due.is("faces " + faces + " with both " + both, box.nearness(10, 5), node < 0 ? 0 : 16384);
@@ -327,7 +327,7 @@ public final class TermsTest {
         for (int i = 0; i < 2 * 729; i++) {
             int both = i % 2;
             int[] c = {i / 2 % 9, i / 18 % 9, i / 162};
-            OrreryBox box = loaded(16, 16, Texts.scene("", Texts.material(9, 9, 9, 255, -1, both),
+            Fresh box = loaded(16, 16, Texts.scene("", Texts.material(9, 9, 9, 255, -1, both),
                 mesh(points.toString(), "0,0,-65536", c[0] + "," + c[1] + "," + c[2]), Texts.node(-1, 0, 0, 0, 262144), ""));
             boolean in = covers(c[0], c[1], c[2]) || both == 1 && covers(c[0], c[2], c[1]);
             String name = "face " + c[0] + " " + c[1] + " " + c[2] + " with both " + both;
@@ -354,7 +354,7 @@ public final class TermsTest {
         String[] orders = {"0,1,2", "1,2,0", "2,0,1"};
         for (String order : orders) {
             String mesh = mesh("-4096,-4096,4097,4096,-4096,4097,0,4096,4095", "0,0,-65536", order);
-            OrreryBox box = loaded(16, 16, white("", mesh, Texts.node(-1, 0, 0, 0, 0)));
+            Fresh box = loaded(16, 16, white("", mesh, Texts.node(-1, 0, 0, 0, 0)));
             box.camera(2, 8, 0, 0);
             Due.is("beside one of them", box.pick(5, 7), 0);
             Due.is("beside the other one", box.pick(10, 7), 0);
@@ -374,7 +374,7 @@ public final class TermsTest {
             + Texts.repeat("0,0,0", 124) + "," + Texts.repeat("0,0,-49152", 4) + "],\"places\":[" + Texts.repeat("0,0", 124)
             + ",0,0,65536,0,65536,65536,0,65536],\"faces\":[" + Texts.repeat("0,1,2", 126) + ",124,125,126,124,126,127]}";
         String texture = Texts.texture(2, 0, 0, "255,0,0,0,255,0,0,0,255,255,255,255");
-        OrreryBox box = loaded(16, 16, white(texture, mesh, Texts.node(-1, 0, 0, 0, 262144)));
+        Fresh box = loaded(16, 16, white(texture, mesh, Texts.node(-1, 0, 0, 0, 262144)));
         box.light(0, 0, -65536, 0);
         Due.drawAll(box);
         int[] quarter = {0xBF0000, 0x00BF00, 0x0000BF, 0xBFBFBF};
@@ -390,7 +390,7 @@ public final class TermsTest {
     /** VIEW undoes the camera's turn and move: what is turned as it is, and straight before it, looks as ever. */
     private static void viewOfTurns() {
         for (int i = 0; i < 64; i++) {
-            OrreryBox box = loaded(16, 16, white("", Texts.square(0, 32768), Texts.node(-1, 0, 0, 0, 0)));
+            Fresh box = loaded(16, 16, white("", Texts.square(0, 32768), Texts.node(-1, 0, 0, 0, 0)));
             int[] turn = {i % 4 * 1024, i / 4 % 4 * 1024, i / 16 * 1024};
             box.set(0, 1, turn[0], turn[1], turn[2]);
             Due.is("turn", box.camera(1, turn[0], turn[1], turn[2]), true);
@@ -415,19 +415,19 @@ public final class TermsTest {
         for (int n = 0; n < normals.length; n++) {
             String mesh = mesh("-65536,-65536,0,65536,-65536,0,65536,65536,0,-65536,65536,0", normals[n], "0,1,2,0,2,3");
             for (int axis = 0; axis < 3; axis++) {
-                OrreryBox box = loaded(16, 16, white("", mesh, Texts.node(-1, 0, 0, 0, 262144)));
+                Fresh box = loaded(16, 16, white("", mesh, Texts.node(-1, 0, 0, 0, 262144)));
                 box.light(axis == 0 ? -65536 : 0, axis == 1 ? -65536 : 0, axis == 2 ? -65536 : 0, 0);
                 Due.drawAll(box);
                 Due.is("normal " + normals[n] + ", light along " + axis, box.pixel(8, 8) & 255, due[n][axis]);
             }
-            OrreryBox box = loaded(16, 16, white("", mesh, Texts.node(-1, 0, 0, 0, 262144)));
+            Fresh box = loaded(16, 16, white("", mesh, Texts.node(-1, 0, 0, 0, 262144)));
             box.light(-65536, -65536, -65536, 0);
             Due.drawAll(box);
             Due.is("normal " + normals[n] + ", light along all", box.pixel(8, 8) & 255, 127);
         }
         // A quarter about z turns x into y.
         String mesh = mesh("-65536,-65536,0,65536,-65536,0,65536,65536,0,-65536,65536,0", "-32768,0,0", "0,1,2,0,2,3");
-        OrreryBox box = loaded(16, 16, white("", mesh, Texts.node(-1, 0, 0, 0, 262144)));
+        Fresh box = loaded(16, 16, white("", mesh, Texts.node(-1, 0, 0, 0, 262144)));
         box.set(0, 1, 0, 0, 1024);
         box.light(0, -65536, 0, 0);
         Due.drawAll(box);
@@ -450,8 +450,8 @@ public final class TermsTest {
             "\"places\":[-131072,-131072,131072,-131072,131072,131072,-131072,131072]");
         for (int wrap = 0; wrap < 3; wrap++) {
             String node = Texts.node(-1, 0, 0, 0, 262144);
-            OrreryBox byU = drawn(16, 16, white(Texts.texture(4, wrap, 0, columns.toString()), square, node));
-            OrreryBox byV = drawn(16, 16, white(Texts.texture(4, wrap, 0, rows.toString()), square, node));
+            Fresh byU = drawn(16, 16, white(Texts.texture(4, wrap, 0, columns.toString()), square, node));
+            Fresh byV = drawn(16, 16, white(Texts.texture(4, wrap, 0, rows.toString()), square, node));
             for (int i = 0; i < 256; i++) {
                 Due.is("wrap " + wrap + " by u", byU.pixel(i % 16, i / 16), 10 * due[wrap][i % 16] * 65536);
                 Due.is("wrap " + wrap + " by v", byV.pixel(i % 16, i / 16), 10 * due[wrap][i / 16] * 65536);
@@ -465,7 +465,7 @@ public final class TermsTest {
         // The texels beyond 0 1 on the left (-1) and on the right (2), for each wrap.
         int[][] beyond = {{1, 0}, {0, 1}, {0, 1}};
         for (int wrap = 0; wrap < 3; wrap++) {
-            OrreryBox box = drawn(8, 8, white(Texts.texture(2, wrap, 1, "10,0,0,60,0,0,110,0,0,210,0,0"),
+            Fresh box = drawn(8, 8, white(Texts.texture(2, wrap, 1, "10,0,0,60,0,0,110,0,0,210,0,0"),
                 Texts.square(0, 32768), Texts.node(-1, 0, 0, 0, 262144)));
             for (int i = 0; i < 64; i++) {
                 int x = i % 8;
@@ -488,7 +488,7 @@ public final class TermsTest {
     private static void oneTexel() {
         for (int wrap = 0; wrap < 3; wrap++) {
             for (int soft = 0; soft < 2; soft++) {
-                OrreryBox box = drawn(8, 8, white(Texts.texture(1, wrap, soft, "255,7,0"), Texts.square(0, 65536).replace(
+                Fresh box = drawn(8, 8, white(Texts.texture(1, wrap, soft, "255,7,0"), Texts.square(0, 65536).replace(
                     "[0,0,65536,0,65536,65536,0,65536]", "[-131072,-131072,131072,-131072,131072,131072,-131072,131072]"),
                     Texts.node(-1, 0, 0, 0, 262144)));
                 for (int i = 0; i < 64; i++) {
@@ -509,7 +509,7 @@ public final class TermsTest {
         int[] due = {255, 255, 66, 18, 6, 3};
         for (int level = 0; level <= 5; level++) {
             int move = level == 5 ? 4096 : 0;
-            OrreryBox box = drawn(48, 48, white(Texts.texture(32, 1, 0, texels.toString()),
+            Fresh box = drawn(48, 48, white(Texts.texture(32, 1, 0, texels.toString()),
                 Texts.square(0, 131072 >> level), Texts.node(-1, 0, move, move, 262144)));
             // 32 pixels wide at level 0; right and below of the middle begins the texel with the bright ones.
             Due.is("level " + level, box.pixel(24, 24), due[level] * 65536 + 3 * 256 + 3);
@@ -523,7 +523,7 @@ public final class TermsTest {
             for (int i = 0; i < 4; i++) {
                 texels.append(i == 0 ? "" : ",").append(i == k ? "255,8,3" : "0,0,0");
             }
-            OrreryBox box = drawn(16, 16, white(Texts.texture(2, 0, 0, texels.toString()), Texts.square(0, 4096),
+            Fresh box = drawn(16, 16, white(Texts.texture(2, 0, 0, texels.toString()), Texts.square(0, 4096),
                 Texts.node(-1, 0, 4096, 4096, 262144)));
             Due.is("the mean with " + k, box.pixel(8, 8), 63 * 65536 + 2 * 256);
         }
@@ -541,7 +541,7 @@ public final class TermsTest {
             // A triangle of 4 by 4 pixels has AREA 64 * 64: 2^32 * 4 * 4 is just as much as 4096 * 2^24.
             String mesh = "{\"material\":0,\"points\":[-16384,-16384,0,16384,-16384,0,-16384,16384,0],\"normals\":["
                 + Texts.repeat("0,0,-65536", 3) + "],\"places\":[" + places + "],\"faces\":[0,1,2]}";
-            OrreryBox box = drawn(16, 16, white(texture, mesh, Texts.node(-1, 0, 0, 0, 262144)));
+            Fresh box = drawn(16, 16, white(texture, mesh, Texts.node(-1, 0, 0, 0, 262144)));
             int colour = box.pixel(6, 6);
             Due.is("it is there", box.nearness(6, 6), 16384);
             Due.is("level 0 of " + places, colour == 0 || colour == 0xFFFFFF, i < fit.length);
@@ -560,7 +560,7 @@ public final class TermsTest {
             int u = at[n / 6];
             int v = at[(n / 6 * 7 + 3) % at.length];
             String places = "\"places\":[" + Texts.repeat(u + "," + v, 4) + "]";
-            OrreryBox box = drawn(8, 8, white(Texts.texture(2, wrap, soft, "10,0,0,60,0,0,110,0,0,210,0,0"),
+            Fresh box = drawn(8, 8, white(Texts.texture(2, wrap, soft, "10,0,0,60,0,0,110,0,0,210,0,0"),
                 Texts.square(0, 65536).replace("\"places\":[0,0,65536,0,65536,65536,0,65536]", places),
                 Texts.node(-1, 0, 0, 0, 262144)));
             int a = 2 * u - 32768 * soft;
@@ -593,14 +593,14 @@ public final class TermsTest {
         // 262144 has nearness 16384, and so has 262143: 4294967296 / 262143 = 16384.06; 262128 has 16385.
         int[][] due = {{262144, 0xFF0000}, {262143, 0x00FF00}, {262145, 0xFF0000}, {262128, 0x00FF00}};
         for (int[] d : due) {
-            OrreryBox box = drawn(16, 16, Texts.scene("", materials, meshes, Texts.node(-1, 0, 0, 0, 262144) + ","
+            Fresh box = drawn(16, 16, Texts.scene("", materials, meshes, Texts.node(-1, 0, 0, 0, 262144) + ","
                 + Texts.node(-1, 1, 0, 0, d[0]), ""));
             Due.is("solid at " + d[0], box.pixel(8, 8), d[1]);
         }
         // 127 red and 128 blue where the clear one is nearer; a clear one that is just as near is not seen.
         int[][] clear = {{262144, 0xFF0000}, {262143, 0xFF0000}, {262145, 0xFF0000}, {262128, 0x7F0080}};
         for (int[] d : clear) {
-            OrreryBox box = drawn(16, 16, Texts.scene("", materials, meshes, Texts.node(-1, 0, 0, 0, 262144) + ","
+            Fresh box = drawn(16, 16, Texts.scene("", materials, meshes, Texts.node(-1, 0, 0, 0, 262144) + ","
                 + Texts.node(-1, 2, 0, 0, d[0]), ""));
             Due.is("clear at " + d[0], box.pixel(8, 8), d[1]);
             Due.is("the solid one's nearness at " + d[0], box.nearness(8, 8), 16384);
@@ -618,7 +618,7 @@ public final class TermsTest {
         String materials = Texts.material(255, 0, 0, 60, -1, 0) + "," + Texts.material(0, 255, 0, 60, -1, 0) + ","
             + Texts.material(0, 0, 255, 60, -1, 0);
         String meshes = Texts.square(0, 65536) + "," + Texts.square(1, 65536) + "," + Texts.square(2, 65536);
-        OrreryBox box = drawn(16, 16, Texts.scene("", materials, meshes, nodes.toString(), ""));
+        Fresh box = drawn(16, 16, Texts.scene("", materials, meshes, nodes.toString(), ""));
         int[] colour = new int[3];
         for (int z = 300000; z >= 200000; z -= 1000) {
             for (int i = 0; i < 48; i++) {
@@ -634,7 +634,7 @@ public final class TermsTest {
     private static void clearness() {
         int[] fourths = {255, 254, 128, 1, 0};
         for (int c : fourths) {
-            OrreryBox box = loaded(16, 16, Texts.scene("", Texts.material(255, 0, 0, c, -1, 0), Texts.square(0, 65536),
+            Fresh box = loaded(16, 16, Texts.scene("", Texts.material(255, 0, 0, c, -1, 0), Texts.square(0, 65536),
                 Texts.node(-1, 0, 0, 0, 262144), ""));
             box.background(0, 200, 255);
             Due.drawAll(box);
@@ -649,7 +649,7 @@ public final class TermsTest {
     private static void tiles() {
         for (int width = 8; width <= 48; width++) {
             int height = 56 - width;
-            OrreryBox box = new OrreryBox(width, height);
+            Fresh box = new Fresh(width, height);
             int across = (width + 7) / 8;
             int tiles = across * ((height + 7) / 8);
             Due.is("tiles of " + width + " by " + height, box.begin(), tiles);

@@ -19,7 +19,7 @@ public final class TextBoundsTest {
     /** The byte that is wrong stands behind a caret (which is left out). */
     private static void wrong(int what, String marked) {
         int at = marked.indexOf('^');
-        OrreryBox box = new OrreryBox(8, 8);
+        Fresh box = new Fresh(8, 8);
         String told = marked.length() > 400 ? "..." + marked.substring(Math.max(0, at - 60)) : marked;
         Due.is("load of " + told, Due.load(box, marked.replace("^", "")), Due.ILLEGAL_ARGUMENT);
         Due.is("error(0) of " + told, box.error(0), what);
@@ -27,7 +27,7 @@ public final class TextBoundsTest {
     }
 
     private static void right(String text) {
-        OrreryBox box = new OrreryBox(8, 8);
+        Fresh box = new Fresh(8, 8);
         String told = text.length() > 400 ? text.substring(0, 400) + "..." : text;
         Due.is("load of " + told, Due.load(box, text) != Due.ILLEGAL_ARGUMENT, true);
         Due.is("error(0) of " + told, box.error(0), 0);
@@ -295,7 +295,7 @@ public final class TextBoundsTest {
     private static void thingBounds() {
         for (int kind = 0; kind < CAMERA; kind++) {
             String all = Texts.repeat(thing(kind), MOST[kind]);
-            OrreryBox box = new OrreryBox(8, 8);
+            Fresh box = new Fresh(8, 8);
             Due.load(box, sceneWith(kind, all));
             Due.is("count(" + kind + ")", box.count(kind), MOST[kind]);
             right(sceneWith(kind, ""));

@@ -1,6 +1,6 @@
 /** Promises 4 to 6: load, error and count. */
 public final class TextTest {
-    private static OrreryBox box;
+    private static Fresh box;
     private static final String TEXTURE = "{\"side\":1,\"wrap\":0,\"soft\":0,\"texels\":[1,2,3]}";
     private static final String MATERIAL = "{\"colour\":[1,2,3,4],\"texture\":-1,\"both\":0}";
     private static final String MESH = "{\"material\":0,\"points\":[1,2,3],\"normals\":[0,0,0],\"places\":[0,0],"
@@ -14,7 +14,7 @@ public final class TextTest {
     private static void wrong(int what, String marked) {
         int at = marked.indexOf('^');
         String text = marked.substring(0, at) + marked.substring(at + 1);
-        box = new OrreryBox(8, 8);
+        box = new Fresh(8, 8);
         Due.is("load of " + marked, Due.load(box, text), Due.ILLEGAL_ARGUMENT);
         Due.is("error(0) of " + marked, box.error(0), what);
         Due.is("error(1) of " + marked, box.error(1), at);
@@ -23,7 +23,7 @@ public final class TextTest {
     }
 
     private static void right(String text, int nodes) {
-        box = new OrreryBox(8, 8);
+        box = new Fresh(8, 8);
         again(text, nodes);
     }
 
@@ -227,7 +227,7 @@ public final class TextTest {
 
     /** A wrong load leaves the scene alone; a right one starts it anew, but keeps what the document says. */
     private static void whatStays() {
-        box = new OrreryBox(16, 16);
+        box = new Fresh(16, 16);
         String scene = Texts.scene("", Texts.material(255, 0, 0, 255, -1, 0), Texts.square(0, 65536),
             Texts.node(-1, 0, 0, 0, 262144), Texts.track(0, 0, 1, "0,10", "0,0,131072,0,0,262144"));
         again(scene, 1);
@@ -274,7 +274,7 @@ public final class TextTest {
     private static void behindTheEnd() {
         String text = "{\"camera\": {\"move\":[0,0,0],\"turn\":[0,0,0],\"focus\":88} } ";
         for (int n = 0; n <= text.length(); n++) {
-            box = new OrreryBox(8, 8);
+            box = new Fresh(8, 8);
             Due.tape(box, text);
             box.end(n);
             boolean whole = n >= text.length() - 1;
@@ -288,7 +288,7 @@ public final class TextTest {
 
     /** Scenes take turns in the same memory: nothing of an earlier one is left. */
     private static void overAndOver() {
-        box = new OrreryBox(16, 16);
+        box = new Fresh(16, 16);
         for (int i = 0; i < 6; i++) {
             again(Texts.redSquare(), 1);
             Due.is("it is seen", box.pick(8, 8), 0);
