@@ -104,6 +104,8 @@ public final class NewObjectTest {
         Due.is("no room for twenty more", box.feed(1, 2, 3, 4, 5), false);
         Due.is("end(65521)", box.end(65521), false);
         Due.is("end(65520)", box.end(65520), true);
+        Due.is("end(65517)", box.end(65517), true);
+        Due.is("one byte too few", box.feed(1, 2, 3, 4, 5), false);
         Due.is("end(65516)", box.end(65516), true);
         Due.is("just room for twenty more", box.feed(0x20202020, 0x20202020, 0x20202020, 0x20202020, 0x20207B7D), true);
         Due.is("it is full", box.feed(1, 2, 3, 4, 5), false);
