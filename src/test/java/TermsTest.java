@@ -583,6 +583,48 @@ public final class TermsTest {
         return due[wrap][i + 5];
     }
 
+    // ---- ON THE PICTURE
+
+    /** "r = DIV(4294967296, z)": where that just comes out (z * 641 is 4294967297), and as far away as can be. */
+    private static void farAway() {
+        int[][] due = {{6700416, 641}, {6700417, 640}, {6700418, 640}, {8388608, 512}, {8388609, 511}, {16711935, 257},
+            {16711936, 256}, {FAR - 1, 256}, {FAR, 256}};
+        for (int[] d : due) {
+            StringBuilder nodes = new StringBuilder();
+            int left = d[0];
+            for (int i = 0; i < 3; i++) {
+                int z = Math.min(left, 4 * MOST);
+                nodes.append(Texts.node(i - 1, -1, 0, 0, z)).append(",");
+                left -= z;
+            }
+            nodes.append(node(2, 0, "0,0," + left, "0,0,0", Texts.repeat("1048576", 3)));
+            Fresh box = drawn(48, 48, white("", Texts.square(0, MOST), nodes.toString()));
+            for (int i = 0; i < 48 * 48; i += 7) {
+                Due.is("nearness of " + d[0], box.nearness(i % 48, i / 48), d[1]);
+                Due.is("pixel of " + d[0], box.pixel(i % 48, i / 48), 0xFFFFFF);
+                Due.is("pick of " + d[0], box.pick(i % 48, i / 48), 3);
+            }
+        }
+    }
+
+    /** A face without light is there all the same, whichever of its corners is the first one. */
+    private static void withoutLight() {
+        String[] faces = {"0,1,2", "1,2,0", "2,0,1", "0,2,3", "2,3,0", "3,0,2"};
+        for (int n = 0; n < faces.length; n++) {
+            String text = white("", Texts.square(0, 65536, 0, faces[n]), Texts.node(-1, 0, 0, 0, 262144));
+            Fresh box = loaded(16, 16, text.substring(0, text.length() - 1) + ",\"light\":{\"toward\":[0,0,0],\"ambient\":0}}");
+            box.background(1, 2, 3);
+            Due.drawAll(box);
+            for (int i = 0; i < 256; i++) {
+                boolean in = n < 3 ? i % 16 >= i / 16 : i % 16 < i / 16;
+                String at = " of " + faces[n] + " at " + i;
+                Due.is("nearness" + at, box.nearness(i % 16, i / 16), in ? 16384 : 0);
+                Due.is("pixel" + at, box.pixel(i % 16, i / 16), in ? 0 : 66051);
+                Due.is("pick" + at, box.pick(i % 16, i / 16), in ? 0 : -1);
+            }
+        }
+    }
+
     // ---- THE ORDER, TILES
 
     /** "where a piece covers it with a greater nearness": not with an equal one, and none less than what is there. */
@@ -692,6 +734,8 @@ public final class TermsTest {
         meansOfFour();
         levelBounds();
         exactPlaces();
+        farAway();
+        withoutLight();
         greaterNearness();
         orderOfMany();
         clearness();
