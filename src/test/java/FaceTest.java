@@ -12,10 +12,9 @@ import java.util.List;
 import java.util.Set;
 import java.util.TreeSet;
 
-/** The public face is the document's and nothing else, and a run has room. */
+/** The public face is the document's and nothing else; what an object holds is made once, and a run has room. */
 public final class FaceTest {
     private static final long MOST_FIELDS = 7300000;
-    private static final int MOST_OBJECTS = 600000;
     private static final List<String> METHODS = List.of("boolean feed(int,int,int,int,int)", "boolean end(int)", "int load()",
         "int error(int)", "int count(int)", "boolean time(int)", "boolean set(int,int,int,int,int)", "boolean hang(int,int)",
         "boolean hide(int,boolean)", "boolean camera(int,int,int,int)", "boolean light(int,int,int,int)",
@@ -49,6 +48,7 @@ public final class FaceTest {
         Constructor<?>[] constructors = OrreryBox.class.getDeclaredConstructors();
         Due.is("constructors", constructors.length, 1);
         Due.is("it is public", constructors[0].getModifiers(), Modifier.PUBLIC);
+        Due.is("classes", OrreryBox.class.getDeclaredClasses().length <= 12, true);
     }
 
     /** All fields and elements that can be reached from an object, without constants. */
@@ -77,15 +77,21 @@ public final class FaceTest {
         return sum;
     }
 
-    private static void hasRoom(OrreryBox box) throws IllegalAccessException {
-        Set<Object> objects = Collections.newSetFromMap(new IdentityHashMap<>());
-        long fields = held(box, objects);
-        System.out.println("an object holds " + objects.size() + " objects and arrays, " + fields + " fields and elements");
-        Due.is("fields and elements", fields < MOST_FIELDS, true);
-        Due.is("objects and arrays", objects.size() < MOST_OBJECTS, true);
+    /** "All memory is the engine's own, made once": after a whole run an object holds what it held at first. */
+    private static void madeOnce() throws IllegalAccessException {
+        OrreryBox box = new OrreryBox(48, 48);
+        Set<Object> before = Collections.newSetFromMap(new IdentityHashMap<>());
+        long fields = held(box, before);
+        System.out.println("an object holds " + before.size() + " objects and arrays, " + fields + " fields and elements");
+        Due.is("fields and elements", fields < 1000000, true);
+        Due.is("objects and arrays", before.size() < 2000, true);
+        use(box);
+        Set<Object> after = Collections.newSetFromMap(new IdentityHashMap<>());
+        Due.is("nothing more is held after use", held(box, after), fields);
+        Due.is("no other objects", before.containsAll(after), true);
     }
 
-    /** A run that makes as much as a run can: texts right and wrong, pictures, picks and files, 512 calls in all. */
+    /** A run of texts right and wrong, pictures, picks and files, within 512 calls. */
     private static void use(OrreryBox box) {
         int[][] rows = Due.rowsOf(Texts.redSquare());
         int calls = 0;
@@ -110,21 +116,19 @@ public final class FaceTest {
         }
     }
 
-    /** "All calls of one run live in ONE room", what is thrown away in it, too. */
-    private static void room() throws IllegalAccessException {
+    /** All calls of one run live in one room, and what they throw away does, too. */
+    private static void room() {
         ThreadMXBean threads = (ThreadMXBean) ManagementFactory.getThreadMXBean();
         long before = threads.getCurrentThreadAllocatedBytes();
-        OrreryBox box = new OrreryBox(48, 48);
-        use(box);
+        use(new OrreryBox(48, 48));
         long bytes = threads.getCurrentThreadAllocatedBytes() - before;
         System.out.println("a run makes " + bytes + " bytes");
         Due.is("bytes of a run", bytes < 8 * MOST_FIELDS, true);
-        hasRoom(box);
-        hasRoom(new OrreryBox(8, 8));
     }
 
     public static void main(String[] args) throws IllegalAccessException {
         face();
+        madeOnce();
         room();
         Due.close("FaceTest");
     }
